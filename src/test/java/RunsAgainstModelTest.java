@@ -5,7 +5,7 @@ import java.util.TreeSet;
 
 /** Many nets, made by fixed seeds: each answer of the program against the Model's. */
 public final class RunsAgainstModelTest {
-    private static final int RUNS = 400;
+    private static final int RUNS = 200;
 
     private final Check check = new Check();
     private final Model model = new Model();
