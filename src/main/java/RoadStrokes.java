@@ -128,7 +128,7 @@ public final class RoadStrokes {
             case 1: return net.second[road];
             case 2: return net.kind[road];
             case 3: return net.use[road];
-            case 4: return net.lengthOf(road);
+            case 4: return net.length[road];
             case 5: return net.worthOf(road, net.use[road]);
             case 6: return strokes.ofRoad[road];
             default: return BAD;
@@ -203,12 +203,7 @@ public final class RoadStrokes {
             return BAD;
         }
         cutting.perform(strokes.firstRanks(n), limit);
-        switch (what) {
-            case 0: return cutting.gone;
-            case 1: return cutting.left;
-            case 2: return strokes.lengthOf(cutting.left);
-            default: return cutting.firstGone;
-        }
+        return cutting.answer(what);
     }
 
     /** Promise 15. */
@@ -226,7 +221,7 @@ public final class RoadStrokes {
         }
         int others = net.allRoads() & ~(1 << road);
         int way = ways.least(net.first[road], net.second[road], others);
-        return way == NONE ? NONE : way - net.lengthOf(road);
+        return way == NONE ? NONE : way - net.length[road];
     }
 
     /** Promise 17. */
@@ -399,8 +394,9 @@ public final class RoadStrokes {
 
     private long mixSheet(long before, int n) {
         long h = mixed(before, bridges(n));
+        cutting.perform(strokes.firstRanks(n), DIGEST_LIMIT);
         for (int what = 0; what <= 3; what++) {
-            h = mixed(h, cut(n, DIGEST_LIMIT, what));
+            h = mixed(h, cutting.answer(what));
         }
         h = mixed(h, far(n, 0, 1));
         return mixed(h, far(n, 0, net.meetings - 1));
@@ -481,6 +477,7 @@ public final class RoadStrokes {
         final int[] second = new int[MOST_ROADS];
         final int[] kind = new int[MOST_ROADS];
         final int[] use = new int[MOST_ROADS];
+        final int[] length = new int[MOST_ROADS];
         int meetings = 0;
         int roads = 0;
         private final boolean[] wasRoad = new boolean[MOST_MEETINGS + MOST_ROADS];
@@ -517,6 +514,7 @@ public final class RoadStrokes {
             second[roads] = b;
             kind[roads] = itsKind;
             use[roads] = itsUse;
+            length[roads] = Math.abs(x[a] - x[b]) + Math.abs(y[a] - y[b]);
             roads++;
             return roads;
         }
@@ -547,8 +545,13 @@ public final class RoadStrokes {
             return first[road] == meeting || second[road] == meeting;
         }
 
-        int otherEnd(int road, int meeting) {
-            return first[road] == meeting ? second[road] : first[road];
+        /** By how much x changes from a meeting to the other one of a road. */
+        int stepX(int road, int meeting) {
+            return first[road] == meeting ? x[second[road]] - x[meeting] : x[first[road]] - x[meeting];
+        }
+
+        int stepY(int road, int meeting) {
+            return first[road] == meeting ? y[second[road]] - y[meeting] : y[first[road]] - y[meeting];
         }
 
         int roadsAt(int meeting) {
@@ -565,12 +568,6 @@ public final class RoadStrokes {
             return (1 << roads) - 1;
         }
 
-        int lengthOf(int road) {
-            int a = first[road];
-            int b = second[road];
-            return Math.abs(x[a] - x[b]) + Math.abs(y[a] - y[b]);
-        }
-
         int worthOf(int road, int itsUse) {
             int times;
             switch (kind[road]) {
@@ -578,7 +575,7 @@ public final class RoadStrokes {
                 case STREET: times = 2 * (itsUse + 1); break;
                 default: times = itsUse + 12; break;
             }
-            return lengthOf(road) * times;
+            return length[road] * times;
         }
 
         private boolean isTaken(int placeX, int placeY) {
@@ -606,10 +603,18 @@ public final class RoadStrokes {
         private final Net net;
         private final int[] atFirst = new int[MOST_ROADS];
         private final int[] atSecond = new int[MOST_ROADS];
+
+        /** The roads of the meeting in hand that are not joined there yet, in their order, and their steps. */
         private final int[] free = new int[MOST_ROADS];
+        private final int[] stepX = new int[MOST_ROADS];
+        private final int[] stepY = new int[MOST_ROADS];
         private int freeCount = 0;
-        private int bestA = NONE;
-        private int bestB = NONE;
+
+        /** The straightest pair of these so far, as indexes into free, with its fraction. */
+        private int bestI = NONE;
+        private int bestJ = NONE;
+        private long bestOver = 0;
+        private long bestUnder = 1;
 
         Joins(Net net) {
             this.net = net;
@@ -646,19 +651,23 @@ public final class RoadStrokes {
         }
 
         boolean areAlong(int meeting, int a, int b) {
-            long p = product(meeting, a, b);
-            return p < 0 && 2 * p * p >= ownProducts(meeting, a, b);
+            int ax = net.stepX(a, meeting);
+            int ay = net.stepY(a, meeting);
+            int bx = net.stepX(b, meeting);
+            int by = net.stepY(b, meeting);
+            long own = product(ax, ay, ax, ay) * product(bx, by, bx, by);
+            return isWide(product(ax, ay, bx, by), own);
         }
 
         private void joinAt(int meeting) {
             gatherFree(meeting);
             for (int round = 0; round < MOST_ROADS; round++) {
-                findStraightest(meeting);
-                if (bestA == NONE) {
+                findStraightest();
+                if (bestI == NONE) {
                     break;
                 }
-                setPartner(meeting, bestA, bestB);
-                setPartner(meeting, bestB, bestA);
+                setPartner(meeting, free[bestI], free[bestJ]);
+                setPartner(meeting, free[bestJ], free[bestI]);
                 pairs++;
                 dropBest();
             }
@@ -669,43 +678,44 @@ public final class RoadStrokes {
             for (int road = 0; road < net.roads; road++) {
                 if (net.isThere(road, meeting)) {
                     free[freeCount] = road;
+                    stepX[freeCount] = net.stepX(road, meeting);
+                    stepY[freeCount] = net.stepY(road, meeting);
                     freeCount++;
                 }
             }
         }
 
         /** The free roads stand in their order, so of like pairs the first one seen is the one that is due. */
-        private void findStraightest(int meeting) {
-            bestA = NONE;
-            bestB = NONE;
+        private void findStraightest() {
+            bestI = NONE;
+            bestJ = NONE;
             for (int i = 0; i < freeCount; i++) {
                 for (int j = i + 1; j < freeCount; j++) {
-                    consider(meeting, free[i], free[j]);
+                    if (mayJoin(free[i], free[j])) {
+                        consider(i, j);
+                    }
                 }
             }
         }
 
-        private void consider(int meeting, int a, int b) {
-            if (isForbidden(a, b) || !areAlong(meeting, a, b)) {
-                return;
-            }
-            if (bestA == NONE || isStraighterThanBest(meeting, a, b)) {
-                bestA = a;
-                bestB = b;
-            }
-        }
-
-        private boolean isForbidden(int a, int b) {
+        private boolean mayJoin(int a, int b) {
             int kindA = net.kind[a];
             int kindB = net.kind[b];
-            return kindA == HIGHWAY && kindB == LANE || kindA == LANE && kindB == HIGHWAY;
+            return !(kindA == HIGHWAY && kindB == LANE || kindA == LANE && kindB == HIGHWAY);
         }
 
         /** The fractions are compared crosswise, in longs, since the products pass what an int holds. */
-        private boolean isStraighterThanBest(int meeting, int a, int b) {
-            long p = product(meeting, a, b);
-            long bestP = product(meeting, bestA, bestB);
-            return p * p * ownProducts(meeting, bestA, bestB) > bestP * bestP * ownProducts(meeting, a, b);
+        private void consider(int i, int j) {
+            long p = product(stepX[i], stepY[i], stepX[j], stepY[j]);
+            long under = product(stepX[i], stepY[i], stepX[i], stepY[i])
+                * product(stepX[j], stepY[j], stepX[j], stepY[j]);
+            long over = p * p;
+            if (isWide(p, under) && (bestI == NONE || over * bestUnder > bestOver * under)) {
+                bestI = i;
+                bestJ = j;
+                bestOver = over;
+                bestUnder = under;
+            }
         }
 
         private void setPartner(int meeting, int road, int partner) {
@@ -719,25 +729,23 @@ public final class RoadStrokes {
         private void dropBest() {
             int kept = 0;
             for (int i = 0; i < freeCount; i++) {
-                int road = free[i];
-                if (road != bestA && road != bestB) {
-                    free[kept] = road;
+                if (i != bestI && i != bestJ) {
+                    free[kept] = free[i];
+                    stepX[kept] = stepX[i];
+                    stepY[kept] = stepY[i];
                     kept++;
                 }
             }
             freeCount = kept;
         }
 
-        private long ownProducts(int meeting, int a, int b) {
-            return (long) product(meeting, a, a) * product(meeting, b, b);
+        /** Whether the angle is 135 degrees at least, by the product and the two own products multiplied. */
+        private static boolean isWide(long p, long own) {
+            return p < 0 && 2 * p * p >= own;
         }
 
-        private int product(int meeting, int a, int b) {
-            int x = net.x[meeting];
-            int y = net.y[meeting];
-            int farA = net.otherEnd(a, meeting);
-            int farB = net.otherEnd(b, meeting);
-            return (net.x[farA] - x) * (net.x[farB] - x) + (net.y[farA] - y) * (net.y[farB] - y);
+        private static long product(int ux, int uy, int vx, int vy) {
+            return ux * vx + uy * vy;
         }
     }
 
@@ -881,7 +889,7 @@ public final class RoadStrokes {
         private void measureRoad(int stroke, int road) {
             int a = 1 << net.first[road];
             int b = 1 << net.second[road];
-            length[stroke] += net.lengthOf(road);
+            length[stroke] += net.length[road];
             worth[stroke] += net.worthOf(road, net.use[road]);
             meetings[stroke] |= a | b;
             if (joins.isOpenAtFirst(road)) {
@@ -978,7 +986,7 @@ public final class RoadStrokes {
                 if (hasBit(roads, road)) {
                     int a = net.first[road];
                     int b = net.second[road];
-                    int length = net.lengthOf(road);
+                    int length = net.length[road];
                     if (distance[a] + length < distance[b]) {
                         distance[b] = distance[a] + length;
                         shorter = true;
@@ -1020,10 +1028,10 @@ public final class RoadStrokes {
 
     /** Dead ends taken from a sheet, these and the sheet as bits. */
     private static final class Cutting {
-        int left = 0;
-        int gone = 0;
-        int firstGone = NONE;
         private final Strokes strokes;
+        private int left = 0;
+        private int gone = 0;
+        private int firstGone = NONE;
 
         Cutting(Strokes strokes) {
             this.strokes = strokes;
@@ -1043,6 +1051,15 @@ public final class RoadStrokes {
                 }
                 gone++;
                 left &= ~(1 << next);
+            }
+        }
+
+        int answer(int what) {
+            switch (what) {
+                case 0: return gone;
+                case 1: return left;
+                case 2: return strokes.lengthOf(left);
+                default: return firstGone;
             }
         }
 

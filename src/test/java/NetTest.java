@@ -12,6 +12,7 @@ public final class NetTest {
         roads();
         roadsAreFull();
         undone();
+        undoneInTurns();
         undoOfWhatWasRead();
         altered();
         readFromRows();
@@ -143,6 +144,21 @@ public final class NetTest {
         due("P4 begins anew", x.meeting(9, 9), 1);
     }
 
+    /** Where a road was added before, a meeting is added now, and the other way round. */
+    private static void undoneInTurns() {
+        RoadStrokes x = withMeetings(0, 0, 5, 0, 5, 5);
+        due("P4 road", x.road(0, 1, 0, 0), 1);
+        due("P4 road", x.road(1, 2, 0, 0), 2);
+        due("P4 undo road", x.undo(), 4);
+        due("P4 meeting in its stead", x.meeting(9, 9), 4);
+        due("P4 undo meeting", x.undo(), 4);
+        due("P4 one road", x.count(1), 1);
+        due("P4 three meetings", x.count(0), 3);
+        due("P4 road in its stead", x.road(2, 0, 0, 0), 2);
+        due("P4 undo road", x.undo(), 4);
+        due("P4 one road", x.count(1), 1);
+    }
+
     private static void undoOfWhatWasRead() {
         RoadStrokes x = withMeetings(0, 0, 5, 0, 5, 5);
         row(x, 2, 2, 0, 1, 0, 0, 1, 2, 0, 0);
@@ -201,6 +217,13 @@ public final class NetTest {
         due("P6 none whole", x.read(1), 0);
         row(x, 1, 1, 0, 3, 0, 0);
         due("P6 just one", x.read(1), 1);
+        RoadStrokes y = withMeetings(0, 0, 5, 0, 10, 0, 10, 10);
+        row(y, 1, 1, 0, 1, 0, 1, 1, 2, 1, 2, 2, 3, 2, 3, 3, 0, 0, 4);
+        due("P6 four", y.read(1), 4);
+        for (int r = 0; r < 4; r++) {
+            due("P6 first meeting of " + r, y.info(r, 0), r);
+            due("P6 use of " + r, y.info(r, 3), r + 1);
+        }
     }
 
     private static void readStops() {

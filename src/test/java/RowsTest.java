@@ -19,6 +19,7 @@ public final class RowsTest {
         digestOfNothing();
         digestOfOneMeeting();
         digestOfOneRoad();
+        digestCutsByForty();
         CHECK.end();
     }
 
@@ -47,10 +48,12 @@ public final class RowsTest {
         due("P18 the row stays", x.get(3, 2, 59), 0);
         due("P18 the lost one stays lost", x.lose(0), NULL);
         due("P18 put", x.put(3, 2, 59, 8), 1);
+        due("P18 put", x.put(3, 2, 0, 8), 1);
         due("P18 refused", x.sheet(3, 2, 61), -2);
         due("P18 the item stays", x.get(3, 2, 59), 8);
         due("P18 anew", x.sheet(3, 2, 60), 60);
         due("P18 0 at first", x.get(3, 2, 59), 0);
+        due("P18 0 at first", x.get(3, 2, 0), 0);
         due("P18 of another form", x.sheet(3, 1, 2), 2);
         due("P18 another form", x.get(3, 1, 1), 0);
         due("P18 fewer items", x.get(3, 1, 2), MIN);
@@ -283,5 +286,37 @@ public final class RowsTest {
             0, 0, 0, 0, -1, -1, -1,
             1, 0, 1, 7, -1, 7, -1,
             0, 140));
+    }
+
+    /** A dead end worth 30 is cut by the digest, one worth 40 is not. */
+    private static void digestCutsByForty() {
+        RoadStrokes x = new RoadStrokes();
+        x.meeting(0, 0);
+        x.meeting(10, 0);
+        x.meeting(10, 10);
+        x.road(0, 1, 0, 9);
+        x.road(1, 2, 1, 1);
+        due("P25 worth 40", x.digest(), folded(3, 2, 2, 1, 20, 0, 140, 0,
+            0, 0, 1, 10, 0, 2, 10, 10, 1,
+            0, 1, 0, 9, 10, 100, 0, -1, -1, -1,
+            1, 2, 1, 1, 10, 40, 1, -1, -1, -1,
+            1, 10, 100, 0, 0, 0, 1, 0, 100,
+            1, 10, 40, 0, 1, 0, 2, 1, 140,
+            0, 0, 0, 0, -1, -1, -1,
+            1, 0, 1, 10, -1, 10, -1,
+            3, 0, 3, 20, -1, 10, 20,
+            1, 200));
+        x.alter(1, 0, 0);
+        x.alter(1, 1, 2);
+        due("P25 worth 30", x.digest(), folded(3, 2, 2, 1, 20, 0, 130, 0,
+            0, 0, 1, 10, 0, 2, 10, 10, 1,
+            0, 1, 0, 9, 10, 100, 0, -1, -1, -1,
+            1, 2, 0, 2, 10, 30, 1, -1, -1, -1,
+            1, 10, 100, 0, 0, 0, 1, 0, 100,
+            1, 10, 30, 0, 1, 0, 2, 1, 130,
+            0, 0, 0, 0, -1, -1, -1,
+            1, 0, 1, 10, -1, 10, -1,
+            3, 1, 1, 10, 1, 10, 20,
+            0, 100));
     }
 }

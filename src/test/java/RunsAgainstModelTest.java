@@ -49,6 +49,9 @@ public final class RunsAgainstModelTest {
         int step = List.of(1, 3, 5, 10).get(seed % 4);
         if (seed % 5 == 0) {
             ring();
+        } else if (seed % 20 == 3) {
+            columns();
+            return;
         }
         for (int i = 0; i < 4 * meetings && model.places.size() < meetings; i++) {
             addMeeting(step * random.nextInt(30 / step + 1), step * random.nextInt(30 / step + 1));
@@ -70,6 +73,19 @@ public final class RunsAgainstModelTest {
             int kind = random.nextInt(8) == 0 ? 2 : random.nextInt(2);
             int use = random.nextInt(10);
             due("road", x.road(i, (i + 1) % 8, kind, use), model.addWay(i, (i + 1) % 8, kind, use));
+        }
+    }
+
+    /** Roads between two columns never go on into another: as many strokes as roads. */
+    private void columns() {
+        for (int m = 0; m < 16; m++) {
+            addMeeting(m < 8 ? 0 : 30, 4 * (m % 8));
+        }
+        for (int i = 0; i < 200 && model.ways.size() < 24; i++) {
+            int a = random.nextInt(8);
+            int b = 8 + random.nextInt(8);
+            int use = random.nextInt(3);
+            due("road(" + a + ", " + b + ")", x.road(a, b, 0, use), model.addWay(a, b, 0, use));
         }
     }
 

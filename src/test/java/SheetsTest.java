@@ -9,10 +9,12 @@ public final class SheetsTest {
         shorterWays();
         cutting();
         cuttingKeepsTheNetJoined();
+        cuttingByEitherEnd();
         cuttingOfLikeOnes();
         cuttingKeepsRings();
         cuttingKeepsTheLastOfANet();
         cuttingOfOneThatMeetsItself();
+        asManyStrokesAsRoads();
         cutRefusals();
         bridges();
         detours();
@@ -108,6 +110,17 @@ public final class SheetsTest {
         cuts(x, 3, 101, 2, 1, 20, 2);
     }
 
+    /** An end is bare or not by all the other strokes, at either end, at meeting 0 too. */
+    private static void cuttingByEitherEnd() {
+        RoadStrokes x = net(xys(0, 0, 10, 0, 10, 10, 20, 10), road(1, 0, 0, 0), road(1, 2, 2, 0), road(3, 2, 0, 0));
+        cuts(x, 3, 11, 2, 2, 10, 2);
+        RoadStrokes y = net(xys(0, 0, 10, 0, 10, 10, 20, 10), road(0, 1, 0, 0), road(1, 2, 2, 0), road(2, 3, 0, 0));
+        cuts(y, 3, 11, 2, 2, 10, 2);
+        RoadStrokes z = net(xys(0, 0, 10, 0, 10, 10, 20, 10), road(0, 1, 1, 9), road(1, 2, 0, 0), road(2, 3, 1, 9));
+        cuts(z, 3, 11, 0, 7, 30, -1);
+        cuts(z, 2, 11, 1, 1, 10, 1);
+    }
+
     private static void cuttingOfLikeOnes() {
         RoadStrokes x = net(xys(0, 10, 10, 10, 20, 10, 10, 20, 20, 20, 0, 20),
             road(2, 4, 0, 0), road(1, 3, 0, 0), road(0, 5, 0, 0), road(0, 1, 2, 0), road(1, 2, 2, 0));
@@ -152,6 +165,37 @@ public final class SheetsTest {
         due("road goes on", x.count(2), 2);
         due("P14 bare by itself", x.cut(2, 9999, 3), 0);
         due("P14 the other one is left", x.cut(2, 9999, 1), 2);
+    }
+
+    /** Two columns of meetings, roads between them alone: none go on into another, so each is a stroke. */
+    private static void asManyStrokesAsRoads() {
+        RoadStrokes x = new RoadStrokes();
+        for (int m = 0; m < 16; m++) {
+            due("meeting", x.meeting(m < 8 ? 0 : 30, 4 * (m % 8)), m + 1);
+        }
+        for (int r = 0; r < 24; r++) {
+            due("road", x.road(r % 8, 8 + (r % 8 + r / 8) % 8, 0, 0), r + 1);
+        }
+        due("P24 strokes", x.count(2), 24);
+        due("P24 nets", x.count(3), 1);
+        due("P24 length", x.count(4), 872);
+        due("P24 pairs", x.count(7), 0);
+        due("P11 the last one's roads", x.stroke(23, 6), 1 << 23);
+        due("P12 the longest", x.rank(0, 0), 15);
+        due("P12 of all", x.rank(23, 1), 872);
+        due("P12 BAD", x.rank(24, 0), -2);
+        due("P13 by way of many", x.far(24, 0, 7), 60 + 28);
+        due("P14 no dead end", x.cut(24, 9999, 0), 0);
+        due("P14 all are left", x.cut(24, 9999, 1), (1 << 24) - 1);
+        due("P14 length", x.cut(24, 9999, 2), 872);
+        due("P15 no bridge", x.bridges(24), 0);
+        due("P15 BAD", x.bridges(25), -2);
+        due("P15 the first one alone", x.bridges(1), 1 << 15);
+        due("P18 row", x.sheet(0, 0, 60), 60);
+        due("P23 all", x.write(0), 24);
+        due("P23 the longest", x.get(0, 0, 0), 15);
+        due("P17 which", x.useful(0), 15);
+        due("P17 how much", x.useful(1), 580);
     }
 
     private static void cutRefusals() {

@@ -13,6 +13,7 @@ public final class StrokesTest {
         likePairsOfALeastRoad();
         laneAndHighway();
         thenTheRest();
+        lesserRoadsAreLeft();
         ring();
         pathThatMeetsItself();
         numbers();
@@ -138,6 +139,16 @@ public final class StrokesTest {
         due("P24 pairs", x.count(7), 2);
         due("P24 strokes", x.count(2), 2);
         due("P11 roads", x.stroke(1, 6), 12);
+    }
+
+    /** The straightest pair is 1 with 2; what is left of four is 0 with 3. */
+    private static void lesserRoadsAreLeft() {
+        RoadStrokes x = net(xys(15, 15, 0, 15, 30, 15, 0, 18, 30, 18),
+            road(0, 3, 0, 0), road(0, 2, 0, 0), road(0, 1, 0, 0), road(0, 4, 0, 0));
+        due("P9 first pair", x.joined(0, 1), 2);
+        due("P9 then the rest", x.joined(0, 0), 3);
+        due("P9 then the rest", x.joined(0, 3), 0);
+        due("P11 roads", x.stroke(0, 6), 9);
     }
 
     private static void ring() {
