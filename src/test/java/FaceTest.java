@@ -100,10 +100,11 @@ public final class FaceTest {
         Method[] calls = Arrays.stream(RoadStrokes.class.getDeclaredMethods())
             .filter(m -> Modifier.isPublic(m.getModifiers()))
             .sorted((a, b) -> a.getName().compareTo(b.getName())).toArray(Method[]::new);
-        for (int seed = 0; seed < 300; seed++) {
+        for (int seed = 0; seed < 900; seed++) {
             Random random = new Random(seed);
             RoadStrokes x = new RoadStrokes();
-            for (int i = 0; i < 512; i++) {
+            // with two digests each these are 510 calls
+            for (int i = 0; i < 170; i++) {
                 Method m = calls[random.nextInt(calls.length)];
                 if (m.getName().equals("undo") && random.nextInt(4) != 0) {
                     continue;

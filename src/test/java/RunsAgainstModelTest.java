@@ -3,7 +3,10 @@ import java.util.Random;
 import java.util.Set;
 import java.util.TreeSet;
 
-/** Many nets, made by fixed seeds: each answer of the program against the Model's. */
+/**
+ * Many nets, made by fixed seeds: each answer of the program against the Model's. One object is asked more than the
+ * 512 calls that the document speaks of; this program does not count them.
+ */
 public final class RunsAgainstModelTest {
     private static final int RUNS = 200;
 
