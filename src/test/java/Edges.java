@@ -2,7 +2,7 @@ import java.util.ArrayList;
 import java.util.List;
 
 /** What the tests of the edges share: objects told alike, and refusals that must leave one as the other is. */
-final class Edges {
+class Edges {
     static final int NONE = -1, BAD = -2, NOT = -3, FULL = -4;
     static final int NULL = 1, INDEX = 2, CAST = 3, STORE = 4, SIZE = 5;
     static final int MIN = Integer.MIN_VALUE, MAX = Integer.MAX_VALUE;
@@ -159,6 +159,18 @@ final class Edges {
 
     static void fullNet(RoadStrokes x) {
         columns(x, 24);
+    }
+
+    /** Four by four meetings, 24 lanes: four strokes of three roads each across, then four upward. */
+    static void grid(RoadStrokes x) {
+        for (int m = 0; m < 16; m++) {
+            mustBe(x.meeting(10 * (m % 4), 10 * (m / 4)), m + 1);
+        }
+        for (int r = 0; r < 24; r++) {
+            int line = r % 12 / 3;
+            int from = r < 12 ? 4 * line + r % 3 : line + 4 * (r % 3);
+            mustBe(x.road(from, from + (r < 12 ? 1 : 4), 0, 0), r + 1);
+        }
     }
 
     /** The corners of a ring that turns by just 45 degrees at each. */

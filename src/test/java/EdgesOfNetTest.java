@@ -1,11 +1,10 @@
+import java.util.Arrays;
+
 /**
  * The edges that the document names in 'What it is', in 'Terms' of ROADS, and in promises 1 to 8: a test for each
  * sentence, which is told above it. E.refused and E.found ask too that the call changes nothing.
  */
-public final class EdgesOfNetTest {
-    private static final int NONE = Edges.NONE, BAD = Edges.BAD, NOT = Edges.NOT, FULL = Edges.FULL;
-    private static final int NULL = Edges.NULL;
-    private static final int MIN = Edges.MIN, MAX = Edges.MAX;
+public final class EdgesOfNetTest extends Edges {
     private static final Edges E = new Edges();
 
     public static void main(String[] args) {
@@ -48,8 +47,8 @@ public final class EdgesOfNetTest {
         E.end();
     }
 
-    private static Edges.Told corner() {
-        return Edges.net(Edges.xys(0, 0, 10, 0, 10, 10), Edges.road(0, 1, 1, 4));
+    private static Told corner() {
+        return net(xys(0, 0, 10, 0, 10, 10), road(0, 1, 1, 4));
     }
 
     // 'MEETINGS, 16 at most'
@@ -60,14 +59,14 @@ public final class EdgesOfNetTest {
         }
         E.refused("a seventeenth", Edges::sixteenMeetings, y -> y.meeting(15, 15), FULL);
         E.refused("a seventeenth beside roads", Edges::fullNet, y -> y.meeting(15, 15), FULL);
-        E.answers("a sixteenth again", Edges.with(Edges::sixteenMeetings, RoadStrokes::undo), y -> y.meeting(15, 15), 16);
+        E.answers("a sixteenth again", with(Edges::sixteenMeetings, RoadStrokes::undo), y -> y.meeting(15, 15), 16);
     }
 
     // 'are 0 on'
     private static void meetingsAreZeroOn() {
-        E.answers("number 0", Edges.net(Edges.xys(3, 4, 5, 6)), x -> x.at(0, 0), 3);
-        E.answers("number 1", Edges.net(Edges.xys(3, 4, 5, 6)), x -> x.at(1, 0), 5);
-        E.refused("number 2 of two", Edges.net(Edges.xys(3, 4, 5, 6)), x -> x.at(2, 0), BAD);
+        E.answers("number 0", net(xys(3, 4, 5, 6)), x -> x.at(0, 0), 3);
+        E.answers("number 1", net(xys(3, 4, 5, 6)), x -> x.at(1, 0), 5);
+        E.refused("number 2 of two", net(xys(3, 4, 5, 6)), x -> x.at(2, 0), BAD);
         E.answers("number 15 of sixteen", Edges::sixteenMeetings, x -> x.at(15, 1), 28);
         E.refused("number 16 of sixteen", Edges::sixteenMeetings, x -> x.at(16, 1), BAD);
         E.answers("a road to number 15", Edges::sixteenMeetings, x -> x.road(15, 0, 0, 0), 1);
@@ -90,19 +89,19 @@ public final class EdgesOfNetTest {
 
     // 'no two at one'
     private static void noTwoAtOnePlace() {
-        Edges.Told three = Edges.net(Edges.xys(0, 0, 7, 9, 30, 30));
+        Told three = net(xys(0, 0, 7, 9, 30, 30));
         E.refused("at the first one's", three, x -> x.meeting(0, 0), NOT);
         E.refused("at one between's", three, x -> x.meeting(7, 9), NOT);
         E.refused("at the last one's", three, x -> x.meeting(30, 30), NOT);
         E.answers("x alone is like", three, x -> x.meeting(7, 8), 4);
         E.answers("y alone is like", three, x -> x.meeting(8, 9), 4);
         E.answers("x is like y", three, x -> x.meeting(9, 7), 4);
-        E.answers("free when undone", Edges.with(three, RoadStrokes::undo), x -> x.meeting(30, 30), 3);
+        E.answers("free when undone", with(three, RoadStrokes::undo), x -> x.meeting(30, 30), 3);
     }
 
     // 'An object is used for at most 512 calls after it has been made'
     private static void usedForFiveHundredAndTwelveCalls() {
-        RoadStrokes x = Edges.made(Edges::fullNet);
+        RoadStrokes x = made(Edges::fullNet);
         long digest = x.digest();
         for (int call = 42; call <= 509; call++) {
             E.due("call " + call, call % 2 == 0 ? x.undo() : x.road(7, 9, 0, 0), call % 2 == 0 ? 39 : 24);
@@ -114,10 +113,10 @@ public final class EdgesOfNetTest {
 
     // 'ROADS, 24 at most'
     private static void twentyFourRoadsAtMost() {
-        RoadStrokes x = Edges.made(y -> Edges.columns(y, 23));
+        RoadStrokes x = made(y -> columns(y, 23));
         E.due("the twenty-fourth", x.road(0, 15, 2, 9), 24);
         E.refused("a twenty-fifth", Edges::fullNet, y -> y.road(0, 15, 2, 9), FULL);
-        E.answers("a twenty-fourth again", Edges.with(Edges::fullNet, RoadStrokes::undo), y -> y.road(0, 15, 2, 9), 24);
+        E.answers("a twenty-fourth again", with(Edges::fullNet, RoadStrokes::undo), y -> y.road(0, 15, 2, 9), 24);
     }
 
     // 'are 0 on'
@@ -144,10 +143,10 @@ public final class EdgesOfNetTest {
         E.refused("once more", corner(), x -> x.road(0, 1, 1, 4), NOT);
         E.refused("of another kind and use", corner(), x -> x.road(0, 1, 2, 0), NOT);
         E.refused("the other way round", corner(), x -> x.road(1, 0, 1, 4), NOT);
-        E.refused("as the last of 23", x -> Edges.columns(x, 23), x -> x.road(8, 6, 0, 0), NOT);
+        E.refused("as the last of 23", x -> columns(x, 23), x -> x.road(8, 6, 0, 0), NOT);
         E.answers("one end alone is like", corner(), x -> x.road(1, 2, 1, 4), 2);
         E.answers("the other end alone is like", corner(), x -> x.road(2, 0, 1, 4), 2);
-        E.answers("free when undone", Edges.with(corner(), RoadStrokes::undo), x -> x.road(1, 0, 0, 0), 1);
+        E.answers("free when undone", with(corner(), RoadStrokes::undo), x -> x.road(1, 0, 0, 0), 1);
     }
 
     // '0 LANE, 1 STREET, 2 HIGHWAY'
@@ -160,7 +159,7 @@ public final class EdgesOfNetTest {
         for (int v : new int[] {-1, 3, MIN, MAX, 9}) {
             E.refused("kind " + v, corner(), x -> x.road(1, 2, v, 0), BAD);
             E.refused("altered to kind " + v, corner(), x -> x.alter(0, 0, v), BAD);
-            E.refused("read kind " + v, Edges.with(corner(), Edges.row(0, 2, 1, 2, v, 0)), x -> x.read(0), 0);
+            E.refused("read kind " + v, with(corner(), row(0, 2, 1, 2, v, 0)), x -> x.read(0), 0);
         }
     }
 
@@ -174,7 +173,7 @@ public final class EdgesOfNetTest {
         for (int v : new int[] {-1, 10, MIN, MAX}) {
             E.refused("use " + v, corner(), x -> x.road(1, 2, 0, v), BAD);
             E.refused("altered to use " + v, corner(), x -> x.alter(0, 1, v), BAD);
-            E.refused("read use " + v, Edges.with(corner(), Edges.row(0, 2, 1, 2, 0, v)), x -> x.read(0), 0);
+            E.refused("read use " + v, with(corner(), row(0, 2, 1, 2, 0, v)), x -> x.read(0), 0);
         }
     }
 
@@ -183,7 +182,7 @@ public final class EdgesOfNetTest {
         int[][] cases = {{5, 5, 6, 5, 1}, {5, 5, 5, 4, 1}, {0, 0, 30, 30, 60}, {30, 0, 0, 30, 60}, {0, 30, 30, 0, 60},
             {30, 30, 0, 0, 60}, {0, 7, 30, 7, 30}, {7, 30, 7, 0, 30}, {3, 9, 8, 2, 12}};
         for (int[] c : cases) {
-            Edges.Told one = Edges.net(Edges.xys(c[0], c[1], c[2], c[3]), Edges.road(0, 1, 0, 0));
+            Told one = net(xys(c[0], c[1], c[2], c[3]), road(0, 1, 0, 0));
             E.answers("length", one, x -> x.info(0, 4), c[4]);
             E.answers("length of the stroke", one, x -> x.stroke(0, 1), c[4]);
             E.answers("length of all", one, x -> x.count(4), c[4]);
@@ -194,8 +193,8 @@ public final class EdgesOfNetTest {
     private static void worthOfEachKind() {
         int[][] times = {{1, 10}, {2, 20}, {12, 21}};
         for (int kind = 0; kind <= 2; kind++) {
-            Edges.Told least = Edges.net(Edges.xys(0, 0, 30, 30), Edges.road(0, 1, kind, 0));
-            Edges.Told most = Edges.net(Edges.xys(0, 0, 30, 30), Edges.road(0, 1, kind, 9));
+            Told least = net(xys(0, 0, 30, 30), road(0, 1, kind, 0));
+            Told most = net(xys(0, 0, 30, 30), road(0, 1, kind, 9));
             E.answers("worth, not used, kind " + kind, least, x -> x.info(0, 5), 60 * times[kind][0]);
             E.answers("worth, most used, kind " + kind, most, x -> x.info(0, 5), 60 * times[kind][1]);
             E.answers("worth of the stroke", most, x -> x.stroke(0, 2), 60 * times[kind][1]);
@@ -239,7 +238,7 @@ public final class EdgesOfNetTest {
 
     // Promise 1: what one object is told, another one is not
     private static void objectsAreApart() {
-        RoadStrokes told = Edges.made(Edges.with(Edges::fullNet, Edges.row(0, 0, 7)));
+        RoadStrokes told = made(with(Edges::fullNet, row(0, 0, 7)));
         RoadStrokes fresh = new RoadStrokes();
         told.lose(1);
         E.due("no meetings", fresh.count(0), 0);
@@ -253,7 +252,7 @@ public final class EdgesOfNetTest {
     private static void meetingAnswersHowMany() {
         E.answers("the first", Edges::nothing, x -> x.meeting(9, 9), 1);
         E.answers("how many meetings, not roads", corner(), x -> x.meeting(9, 9), 4);
-        E.answers("no stroke more", Edges.with(corner(), x -> x.meeting(5, 0)), x -> x.count(2), 1);
+        E.answers("no stroke more", with(corner(), x -> x.meeting(5, 0)), x -> x.count(2), 1);
     }
 
     // Promise 2: 'BAD; NOT: there is one at that PLACE; FULL'
@@ -267,7 +266,7 @@ public final class EdgesOfNetTest {
     // Promise 3: 'A ROAD more: how many'
     private static void roadAnswersHowMany() {
         E.answers("the first", Edges::sixteenMeetings, x -> x.road(15, 14, 0, 0), 1);
-        E.answers("how many roads, not strokes", Edges.net(Edges.xys(0, 0, 10, 0, 20, 0), Edges.road(0, 1, 0, 0)),
+        E.answers("how many roads, not strokes", net(xys(0, 0, 10, 0, 20, 0), road(0, 1, 0, 0)),
             x -> x.road(1, 2, 0, 0), 2);
     }
 
@@ -292,7 +291,7 @@ public final class EdgesOfNetTest {
 
     // Promise 4: 'how many are left of both together'
     private static void undoLeavesHowMany() {
-        RoadStrokes x = Edges.made(Edges::fullNet);
+        RoadStrokes x = made(Edges::fullNet);
         for (int left = 39; left >= 0; left--) {
             E.due("left", x.undo(), left);
             E.due("meetings left", x.count(0), Math.min(left, 16));
@@ -304,34 +303,46 @@ public final class EdgesOfNetTest {
     // Promise 4: 'NOT: there is none'
     private static void undoNotIfThereIsNone() {
         E.refused("of a new object", Edges::nothing, RoadStrokes::undo, NOT);
-        E.answers("of one", Edges.net(Edges.xys(1, 1)), RoadStrokes::undo, 0);
-        E.refused("when all is undone", Edges.with(Edges.net(Edges.xys(1, 1)), RoadStrokes::undo),
+        E.answers("of one", net(xys(1, 1)), RoadStrokes::undo, 0);
+        E.refused("when all is undone", with(net(xys(1, 1)), RoadStrokes::undo),
             RoadStrokes::undo, NOT);
-        E.refused("rows are no part of it", Edges.row(0, 0, 1), RoadStrokes::undo, NOT);
+        E.refused("rows are no part of it", row(0, 0, 1), RoadStrokes::undo, NOT);
         E.refused("what was refused is none", x -> x.meeting(31, 0), RoadStrokes::undo, NOT);
     }
 
     // Promise 4: 'The last that was added, MEETING or ROAD, is undone'
     private static void undoTakesTheLastOfBoth() {
-        Edges.Told mixed = x -> {
+        Told mixed = x -> {
             corner().to(x);
             x.meeting(20, 20);
             x.road(3, 0, 2, 2);
             x.meeting(25, 20);
         };
-        E.answers("a meeting", Edges.with(mixed, RoadStrokes::undo), x -> 10 * x.count(0) + x.count(1), 42);
-        Edges.Told two = Edges.with(mixed, x -> {
+        E.answers("a meeting", with(mixed, RoadStrokes::undo), x -> 10 * x.count(0) + x.count(1), 42);
+        Told two = with(mixed, x -> {
             x.undo();
             x.undo();
         });
         E.answers("then a road", two, x -> 10 * x.count(0) + x.count(1), 41);
-        E.answers("then a meeting", Edges.with(two, RoadStrokes::undo), x -> 10 * x.count(0) + x.count(1), 31);
-        E.answers("what was altered stays", Edges.with(corner(), x -> {
+        E.answers("then a meeting", with(two, RoadStrokes::undo), x -> 10 * x.count(0) + x.count(1), 31);
+        E.answers("a meeting where a road was undone", with(corner(), x -> {
+            x.road(1, 2, 0, 0);
+            x.undo();
+            x.meeting(20, 20);
+            x.undo();
+        }), x -> 10 * x.count(0) + x.count(1), 31);
+        E.answers("a road where a meeting was undone", with(corner(), x -> {
+            x.meeting(20, 20);
+            x.undo();
+            x.road(1, 2, 0, 0);
+            x.undo();
+        }), x -> 10 * x.count(0) + x.count(1), 31);
+        E.answers("what was altered stays", with(corner(), x -> {
             x.meeting(20, 20);
             x.alter(0, 1, 9);
             x.undo();
         }), x -> x.info(0, 3), 9);
-        E.answers("of what was read the last alone", Edges.with(Edges.with(corner(), Edges.row(0, 0, 1, 2, 0, 0, 2, 0, 0, 0)),
+        E.answers("of what was read the last alone", with(with(corner(), row(0, 0, 1, 2, 0, 0, 2, 0, 0, 0)),
             x -> {
                 x.read(0);
                 x.undo();
@@ -340,12 +351,12 @@ public final class EdgesOfNetTest {
 
     // Promise 4: what is undone is no such thing
     private static void undoneNumbersAreNoMore() {
-        E.refused("a road", Edges.with(corner(), RoadStrokes::undo), x -> x.info(0, 0), BAD);
-        E.refused("its stroke", Edges.with(corner(), RoadStrokes::undo), x -> x.stroke(0, 0), BAD);
-        E.refused("its sheet", Edges.with(corner(), RoadStrokes::undo), x -> x.bridges(1), BAD);
-        E.refused("a meeting", Edges.with(Edges.net(Edges.xys(1, 1, 2, 2)), RoadStrokes::undo), x -> x.at(1, 0), BAD);
-        Edges.Told parted = Edges.with(Edges.net(Edges.xys(0, 0, 10, 0, 20, 0), Edges.road(0, 1, 0, 0),
-            Edges.road(1, 2, 0, 0)), RoadStrokes::undo);
+        E.refused("a road", with(corner(), RoadStrokes::undo), x -> x.info(0, 0), BAD);
+        E.refused("its stroke", with(corner(), RoadStrokes::undo), x -> x.stroke(0, 0), BAD);
+        E.refused("its sheet", with(corner(), RoadStrokes::undo), x -> x.bridges(1), BAD);
+        E.refused("a meeting", with(net(xys(1, 1, 2, 2)), RoadStrokes::undo), x -> x.at(1, 0), BAD);
+        Told parted = with(net(xys(0, 0, 10, 0, 20, 0), road(0, 1, 0, 0),
+            road(1, 2, 0, 0)), RoadStrokes::undo);
         E.answers("what was joined to it is not", parted, x -> x.joined(1, 0), NONE);
         E.answers("no pair is left", parted, x -> x.count(7), 0);
     }
@@ -361,12 +372,12 @@ public final class EdgesOfNetTest {
         }
         E.answers("3 is a use", corner(), x -> x.alter(0, 1, 3), 4);
         E.refused("3 is no kind", corner(), x -> x.alter(0, 0, 3), BAD);
-        E.refused("no road at all", Edges.net(Edges.xys(0, 0, 1, 1)), x -> x.alter(0, 0, 0), BAD);
+        E.refused("no road at all", net(xys(0, 0, 1, 1)), x -> x.alter(0, 0, 0), BAD);
     }
 
     // Promise 5: 'is v: what it was'
     private static void alterAnswersWhatItWas() {
-        RoadStrokes x = Edges.made(corner());
+        RoadStrokes x = made(corner());
         E.due("kind", x.alter(0, 0, 2), 1);
         E.due("the same again", x.alter(0, 0, 2), 2);
         E.due("is v", x.info(0, 2), 2);
@@ -384,9 +395,9 @@ public final class EdgesOfNetTest {
         for (int row = 0; row <= 3; row++) {
             int s = row;
             E.found("a LOST row " + s, corner(), x -> x.read(s), NULL);
-            E.found("lost again " + s, Edges.with(Edges.with(corner(), Edges.row(s, 0, 1, 2, 0, 0)), x -> x.lose(s)),
+            E.found("lost again " + s, with(with(corner(), row(s, 0, 1, 2, 0, 0)), x -> x.lose(s)),
                 x -> x.read(s), NULL);
-            E.answers("row " + s, Edges.with(corner(), Edges.row(s, 0, 1, 2, 0, 0)), x -> x.read(s), 1);
+            E.answers("row " + s, with(corner(), row(s, 0, 1, 2, 0, 0)), x -> x.read(s), 1);
         }
     }
 
@@ -395,14 +406,14 @@ public final class EdgesOfNetTest {
         int[] items = {1, 2, 0, 5, 0, 2, 2, 7};
         int[] whole = {0, 0, 0, 0, 1, 1, 1, 1, 2};
         for (int n = 0; n <= 8; n++) {
-            RoadStrokes x = Edges.made(Edges.with(corner(), Edges.row(2, 1, java.util.Arrays.copyOf(items, n))));
+            RoadStrokes x = made(with(corner(), row(2, 1, Arrays.copyOf(items, n))));
             E.due("read of " + n + " items", x.read(2), whole[n]);
             E.due("roads after " + n + " items", x.count(1), 1 + whole[n]);
             E.due("the row stays", x.lose(2), n);
         }
-        E.refused("a row of 0 items", Edges.with(corner(), Edges.row(2, 1)), x -> x.read(2), 0);
-        E.refused("a row of 3 items", Edges.with(corner(), Edges.row(2, 1, 1, 2, 0)), x -> x.read(2), 0);
-        RoadStrokes x = Edges.made(Edges.with(corner(), Edges.row(2, 1, items)));
+        E.refused("a row of 0 items", with(corner(), row(2, 1)), x -> x.read(2), 0);
+        E.refused("a row of 3 items", with(corner(), row(2, 1, 1, 2, 0)), x -> x.read(2), 0);
+        RoadStrokes x = made(with(corner(), row(2, 1, items)));
         x.read(2);
         int[] want = {0, 2, 2, 7};
         for (int what = 0; what < 4; what++) {
@@ -415,21 +426,21 @@ public final class EdgesOfNetTest {
         int[][] bad = {{-1, 2, 0, 0}, {3, 2, 0, 0}, {2, -1, 0, 0}, {2, 3, 0, 0}, {2, 2, 0, 0}, {0, 2, -1, 0},
             {0, 2, 3, 0}, {0, 2, 0, -1}, {0, 2, 0, 10}, {0, 1, 0, 0}, {1, 0, 0, 0}, {1, 2, 0, 0}, {2, 1, 0, 0}};
         for (int[] b : bad) {
-            RoadStrokes x = Edges.made(Edges.with(corner(),
-                Edges.row(0, 2, 1, 2, 0, 5, b[0], b[1], b[2], b[3], 2, 0, 0, 0)));
+            RoadStrokes x = made(with(corner(),
+                row(0, 2, 1, 2, 0, 5, b[0], b[1], b[2], b[3], 2, 0, 0, 0)));
             E.due("the first alone", x.read(0), 1);
             E.due("two roads", x.count(1), 2);
             E.due("the first of the row", x.info(1, 3), 5);
             E.due("it is settled", x.info(1, 6), 1);
         }
-        E.refused("none may be", Edges.with(corner(), Edges.row(0, 2, 1, 0, 0, 0, 1, 2, 0, 0)), x -> x.read(0), 0);
-        E.refused("no meetings", Edges.row(0, 2, 0, 1, 0, 0), x -> x.read(0), 0);
-        E.refused("items of a new row", Edges.with(corner(), x -> x.sheet(0, 2, 60)), x -> x.read(0), 0);
+        E.refused("none may be", with(corner(), row(0, 2, 1, 0, 0, 0, 1, 2, 0, 0)), x -> x.read(0), 0);
+        E.refused("no meetings", row(0, 2, 0, 1, 0, 0), x -> x.read(0), 0);
+        E.refused("items of a new row", with(corner(), x -> x.sheet(0, 2, 60)), x -> x.read(0), 0);
     }
 
     // Promise 6 with 'rows of 0 to 60 items'
     private static void readOfFifteenRoads() {
-        RoadStrokes x = Edges.made(Edges::sixteenMeetings);
+        RoadStrokes x = made(Edges::sixteenMeetings);
         x.sheet(3, 0, 60);
         for (int r = 0; r < 15; r++) {
             x.put(3, 0, 4 * r, r);
@@ -450,19 +461,19 @@ public final class EdgesOfNetTest {
     // Promise 6 with 'FORM: 0 bytes, 1 shorts, 2 ints'
     private static void readOfEachForm() {
         for (int form = 0; form <= 2; form++) {
-            E.answers("form " + form, Edges.with(corner(), Edges.row(1, form, 2, 1, 2, 9)), x -> x.read(1), 1);
+            E.answers("form " + form, with(corner(), row(1, form, 2, 1, 2, 9)), x -> x.read(1), 1);
         }
-        E.answers("the lowest bits of a byte", Edges.with(corner(), Edges.row(1, 0, 258, 257, 256, 265)), x -> x.read(1), 1);
-        E.refused("an int has them all", Edges.with(corner(), Edges.row(1, 2, 258, 257, 256, 265)), x -> x.read(1), 0);
+        E.answers("the lowest bits of a byte", with(corner(), row(1, 0, 258, 257, 256, 265)), x -> x.read(1), 1);
+        E.refused("an int has them all", with(corner(), row(1, 2, 258, 257, 256, 265)), x -> x.read(1), 0);
     }
 
     // Promise 6: 'as long as each may be', at 24 ROADS
     private static void readUntilFull() {
         int[] three = {0, 1, 0, 0, 1, 2, 0, 0, 2, 3, 0, 0};
-        RoadStrokes x = Edges.made(Edges.with(y -> Edges.columns(y, 22), Edges.row(0, 0, three)));
+        RoadStrokes x = made(with(y -> columns(y, 22), row(0, 0, three)));
         E.due("two come", x.read(0), 2);
         E.due("24 in all", x.count(1), 24);
-        E.refused("none comes", Edges.with(Edges::fullNet, Edges.row(0, 0, three)), y -> y.read(0), 0);
+        E.refused("none comes", with(Edges::fullNet, row(0, 0, three)), y -> y.read(0), 0);
     }
 
     // Promise 7: 'x (what = 0), y (1), how many ROADS are there (2) of a MEETING. BAD'
@@ -479,11 +490,11 @@ public final class EdgesOfNetTest {
 
     // Promise 7: 'how many ROADS are there', of none and of as many as may be
     private static void atOfNoneAndOfMostRoads() {
-        E.answers("no road at all", Edges.net(Edges.xys(4, 4)), x -> x.at(0, 2), 0);
+        E.answers("no road at all", net(xys(4, 4)), x -> x.at(0, 2), 0);
         E.answers("at its first", corner(), x -> x.at(0, 2), 1);
         E.answers("at its second", corner(), x -> x.at(1, 2), 1);
         E.answers("fifteen", x -> {
-            Edges.sixteenMeetings(x);
+            sixteenMeetings(x);
             for (int m = 0; m < 15; m++) {
                 x.road(m % 2 == 0 ? m : 15, m % 2 == 0 ? 15 : m, 0, 0);
             }
@@ -504,14 +515,14 @@ public final class EdgesOfNetTest {
             int w = what;
             E.answers("info(0, " + what + ")", corner(), x -> x.info(0, w), want[what]);
         }
-        E.refused("no road at all", Edges.net(Edges.xys(0, 0, 1, 1)), x -> x.info(0, 0), BAD);
+        E.refused("no road at all", net(xys(0, 0, 1, 1)), x -> x.info(0, 0), BAD);
     }
 
     // Promise 8: 'as told'
     private static void infoAsTold() {
-        Edges.Told back = Edges.net(Edges.xys(0, 0, 10, 0), Edges.road(1, 0, 0, 0));
+        Told back = net(xys(0, 0, 10, 0), road(1, 0, 0, 0));
         E.answers("its first", back, x -> x.info(0, 0), 1);
         E.answers("its second", back, x -> x.info(0, 1), 0);
-        E.answers("its first, when refused again", Edges.with(back, x -> x.road(0, 1, 2, 2)), x -> x.info(0, 0), 1);
+        E.answers("its first, when refused again", with(back, x -> x.road(0, 1, 2, 2)), x -> x.info(0, 0), 1);
     }
 }

@@ -1,13 +1,11 @@
 import java.math.BigInteger;
+import java.util.Arrays;
 
 /**
  * The edges that the document names in 'Terms' of rows and FINDINGS, and in promises 18 to 25: a test for each
  * sentence, which is told above it. E.refused, E.found and E.asked ask too that the call changes nothing.
  */
-public final class EdgesOfRowsTest {
-    private static final int BAD = Edges.BAD;
-    private static final int NULL = Edges.NULL, INDEX = Edges.INDEX, CAST = Edges.CAST, STORE = Edges.STORE, SIZE = Edges.SIZE;
-    private static final int MIN = Edges.MIN, MAX = Edges.MAX;
+public final class EdgesOfRowsTest extends Edges {
     private static final Edges E = new Edges();
 
     public static void main(String[] args) {
@@ -51,11 +49,11 @@ public final class EdgesOfRowsTest {
         E.end();
     }
 
-    private static Edges.Told threeShorts() {
-        return Edges.row(1, 1, 5, -6, 7);
+    private static Told threeShorts() {
+        return row(1, 1, 5, -6, 7);
     }
 
-    private static void items(String what, Edges.Told told, int s, int form, int... want) {
+    private static void items(String what, Told told, int s, int form, int... want) {
         for (int i = 0; i < want.length; i++) {
             int at = i;
             E.asked(what + ": item " + i, told, x -> x.get(s, form, at), want[i]);
@@ -69,12 +67,12 @@ public final class EdgesOfRowsTest {
             int s = row;
             E.answers("sheet(" + s + ")", Edges::nothing, x -> x.sheet(s, 1, 2), 2);
             E.answers("its own alone", x -> x.sheet(s, 1, 2), x -> x.lose((s + 1) % 4), -11);
-            E.answers("lose(" + s + ")", Edges.row(s, 1, 4, 4), x -> x.lose(s), 2);
-            E.answers("put(" + s + ")", Edges.row(s, 1, 4, 4), x -> x.put(s, 1, 1, 9), 1);
-            E.answers("get(" + s + ")", Edges.row(s, 1, 4, 8), x -> x.get(s, 1, 1), 8);
-            E.answers("copy(" + s + ")", Edges.row(s, 1, 4, 4), x -> x.copy(s, 0, s, 1, 1), 1);
-            E.answers("write(" + s + ")", Edges.with(Edges::fullNet, Edges.row(s, 1, 4, 4)), x -> x.write(s), 2);
-            E.answers("read(" + s + ")", Edges.with(Edges::sixteenMeetings, Edges.row(s, 1, 0, 1, 0, 0)), x -> x.read(s), 1);
+            E.answers("lose(" + s + ")", row(s, 1, 4, 4), x -> x.lose(s), 2);
+            E.answers("put(" + s + ")", row(s, 1, 4, 4), x -> x.put(s, 1, 1, 9), 1);
+            E.answers("get(" + s + ")", row(s, 1, 4, 8), x -> x.get(s, 1, 1), 8);
+            E.answers("copy(" + s + ")", row(s, 1, 4, 4), x -> x.copy(s, 0, s, 1, 1), 1);
+            E.answers("write(" + s + ")", with(Edges::fullNet, row(s, 1, 4, 4)), x -> x.write(s), 2);
+            E.answers("read(" + s + ")", with(Edges::sixteenMeetings, row(s, 1, 0, 1, 0, 0)), x -> x.read(s), 1);
         }
         for (int s : new int[] {-1, 4, MIN, MAX}) {
             E.refused("sheet(" + s + ")", threeShorts(), x -> x.sheet(s, 1, 2), BAD);
@@ -83,8 +81,8 @@ public final class EdgesOfRowsTest {
             E.refused("get(" + s + ")", threeShorts(), x -> x.get(s, 1, 0), MIN);
             E.refused("copy from " + s, threeShorts(), x -> x.copy(s, 0, 1, 1, 1), BAD);
             E.refused("copy to " + s, threeShorts(), x -> x.copy(1, 0, s, 1, 1), BAD);
-            E.refused("write(" + s + ")", Edges.with(Edges::fullNet, threeShorts()), x -> x.write(s), BAD);
-            E.refused("read(" + s + ")", Edges.with(Edges::fullNet, threeShorts()), x -> x.read(s), BAD);
+            E.refused("write(" + s + ")", with(Edges::fullNet, threeShorts()), x -> x.write(s), BAD);
+            E.refused("read(" + s + ")", with(Edges::fullNet, threeShorts()), x -> x.read(s), BAD);
         }
     }
 
@@ -129,11 +127,11 @@ public final class EdgesOfRowsTest {
         for (int i = 0; i < 60; i++) {
             E.due("item " + i + " anew", x.get(0, 2, i), 0);
         }
-        items("anew when it was lost", Edges.with(threeShorts(), y -> {
+        items("anew when it was lost", with(threeShorts(), y -> {
             y.lose(1);
             y.sheet(1, 1, 3);
         }), 1, 1, 0, 0, 0);
-        items("longer anew", Edges.with(threeShorts(), y -> {
+        items("longer anew", with(threeShorts(), y -> {
             y.sheet(1, 1, 1);
             y.sheet(1, 1, 3);
         }), 1, 1, 0, 0, 0);
@@ -141,7 +139,7 @@ public final class EdgesOfRowsTest {
 
     // 'FINDINGS (answers -10 less the number ...): 1 NULL ...; 2 INDEX ...; 3 CAST ...; 4 STORE ...; 5 SIZE ...'
     private static void findingsAnswerTenLess() {
-        Edges.Told two = Edges.with(threeShorts(), Edges.row(2, 2, 1));
+        Told two = with(threeShorts(), row(2, 2, 1));
         E.answers("1 NULL: it is LOST", two, x -> x.lose(0), -11);
         E.answers("2 INDEX: there is no such item", two, x -> x.put(1, 1, 3, 0), -12);
         E.answers("3 CAST: it has another FORM", two, x -> x.put(1, 2, 0, 0), -13);
@@ -157,11 +155,11 @@ public final class EdgesOfRowsTest {
     // Promise 18: 'A row of a FORM with n items is there anew: n'
     private static void sheetAnew() {
         items("in a LOST one's stead", x -> x.sheet(1, 0, 2), 1, 0, 0, 0);
-        items("in another one's stead", Edges.with(threeShorts(), x -> x.sheet(1, 1, 2)), 1, 1, 0, 0);
-        items("of another form", Edges.with(threeShorts(), x -> x.sheet(1, 2, 4)), 1, 2, 0, 0, 0, 0);
-        items("of 0 items", Edges.with(threeShorts(), x -> x.sheet(1, 1, 0)), 1, 1);
-        E.found("its old form is no more", Edges.with(threeShorts(), x -> x.sheet(1, 2, 3)), x -> x.put(1, 1, 0, 1), CAST);
-        E.found("its old items are no more", Edges.with(threeShorts(), x -> x.sheet(1, 1, 2)), x -> x.put(1, 1, 2, 1), INDEX);
+        items("in another one's stead", with(threeShorts(), x -> x.sheet(1, 1, 2)), 1, 1, 0, 0);
+        items("of another form", with(threeShorts(), x -> x.sheet(1, 2, 4)), 1, 2, 0, 0, 0, 0);
+        items("of 0 items", with(threeShorts(), x -> x.sheet(1, 1, 0)), 1, 1);
+        E.found("its old form is no more", with(threeShorts(), x -> x.sheet(1, 2, 3)), x -> x.put(1, 1, 0, 1), CAST);
+        E.found("its old items are no more", with(threeShorts(), x -> x.sheet(1, 1, 2)), x -> x.put(1, 1, 2, 1), INDEX);
         E.answers("no FINDING by that", x -> x.sheet(1, 1, 60), x -> x.count(8), 0);
     }
 
@@ -182,15 +180,15 @@ public final class EdgesOfRowsTest {
         E.answers("0", x -> x.sheet(3, 0, 0), x -> x.lose(3), 0);
         E.answers("1", x -> x.sheet(3, 1, 1), x -> x.lose(3), 1);
         E.answers("60", x -> x.sheet(3, 2, 60), x -> x.lose(3), 60);
-        E.found("then it is LOST", Edges.with(threeShorts(), x -> x.lose(1)), x -> x.get(1, 1, 0), NULL, MIN);
-        E.answers("no FINDING by that", Edges.with(threeShorts(), x -> x.lose(1)), x -> x.count(8), 0);
-        items("the others stay", Edges.with(Edges.with(threeShorts(), Edges.row(2, 0, 9)), x -> x.lose(1)), 2, 0, 9);
+        E.found("then it is LOST", with(threeShorts(), x -> x.lose(1)), x -> x.get(1, 1, 0), NULL, MIN);
+        E.answers("no FINDING by that", with(threeShorts(), x -> x.lose(1)), x -> x.count(8), 0);
+        items("the others stay", with(with(threeShorts(), row(2, 0, 9)), x -> x.lose(1)), 2, 0, 9);
     }
 
     // Promise 19: 'BAD; NULL'
     private static void loseBadThenNull() {
-        E.found("a second time", Edges.with(threeShorts(), x -> x.lose(1)), x -> x.lose(1), NULL);
-        E.found("a second time, of 0 items", Edges.with(Edges.row(1, 0), x -> x.lose(1)), x -> x.lose(1), NULL);
+        E.found("a second time", with(threeShorts(), x -> x.lose(1)), x -> x.lose(1), NULL);
+        E.found("a second time, of 0 items", with(row(1, 0), x -> x.lose(1)), x -> x.lose(1), NULL);
         E.refused("BAD", Edges::nothing, x -> x.lose(4), BAD);
         E.refused("BAD", Edges::nothing, x -> x.lose(-1), BAD);
     }
@@ -199,7 +197,7 @@ public final class EdgesOfRowsTest {
         for (int i = 0; i < pairs.length; i += 2) {
             int v = pairs[i];
             E.answers("put " + v, x -> x.sheet(0, form, 1), x -> x.put(0, form, 0, v), 1);
-            E.answers("it becomes", Edges.row(0, form, v), x -> x.get(0, form, 0), pairs[i + 1]);
+            E.answers("it becomes", row(0, form, v), x -> x.get(0, form, 0), pairs[i + 1]);
         }
     }
 
@@ -222,9 +220,9 @@ public final class EdgesOfRowsTest {
 
     // Promise 20: 'Item i ... becomes v: 1'
     private static void putOneItemAlone() {
-        items("the first", Edges.with(threeShorts(), x -> x.put(1, 1, 0, 9)), 1, 1, 9, -6, 7);
-        items("the last", Edges.with(threeShorts(), x -> x.put(1, 1, 2, 9)), 1, 1, 5, -6, 9);
-        E.answers("no FINDING by that", Edges.with(threeShorts(), x -> x.put(1, 1, 2, 9)), x -> x.count(8), 0);
+        items("the first", with(threeShorts(), x -> x.put(1, 1, 0, 9)), 1, 1, 9, -6, 7);
+        items("the last", with(threeShorts(), x -> x.put(1, 1, 2, 9)), 1, 1, 5, -6, 9);
+        E.answers("no FINDING by that", with(threeShorts(), x -> x.put(1, 1, 2, 9)), x -> x.count(8), 0);
     }
 
     // Promise 20: 'BAD; NULL; CAST; INDEX'
@@ -242,8 +240,8 @@ public final class EdgesOfRowsTest {
             for (int as = 0; as <= 2; as++) {
                 int form = as;
                 if (row != as) {
-                    E.found("CAST of " + row + " as " + as, Edges.row(2, row, 1), x -> x.put(2, form, 0, 9), CAST);
-                    E.found("of 0 items too", Edges.row(2, row), x -> x.put(2, form, 0, 9), CAST);
+                    E.found("CAST of " + row + " as " + as, row(2, row, 1), x -> x.put(2, form, 0, 9), CAST);
+                    E.found("of 0 items too", row(2, row), x -> x.put(2, form, 0, 9), CAST);
                 }
             }
         }
@@ -255,8 +253,8 @@ public final class EdgesOfRowsTest {
         E.found("NULL", threeShorts(), x -> x.get(0, 1, 0), NULL, MIN);
         E.found("CAST", threeShorts(), x -> x.get(1, 2, 0), CAST, MIN);
         E.found("INDEX", threeShorts(), x -> x.get(1, 1, 3), INDEX, MIN);
-        E.asked("an item may be that too", Edges.row(1, 2, MIN), x -> x.get(1, 2, 0), MIN);
-        E.answers("count(8) tells", Edges.with(Edges.row(1, 2, MIN), x -> x.get(1, 2, 0)), x -> x.count(8), 0);
+        E.asked("an item may be that too", row(1, 2, MIN), x -> x.get(1, 2, 0), MIN);
+        E.answers("count(8) tells", with(row(1, 2, MIN), x -> x.get(1, 2, 0)), x -> x.count(8), 0);
     }
 
     // Promise 21: 'BAD ...; so are NULL, CAST, INDEX', in that order
@@ -274,21 +272,21 @@ public final class EdgesOfRowsTest {
             for (int as = 0; as <= 2; as++) {
                 int form = as;
                 if (row != as) {
-                    E.found("CAST of " + row + " as " + as, Edges.row(2, row, 1), x -> x.get(2, form, 0), CAST, MIN);
+                    E.found("CAST of " + row + " as " + as, row(2, row, 1), x -> x.get(2, form, 0), CAST, MIN);
                 }
             }
         }
-        E.found("of 0 items", Edges.row(2, 0), x -> x.get(2, 0, 0), INDEX, MIN);
+        E.found("of 0 items", row(2, 0), x -> x.get(2, 0, 0), INDEX, MIN);
         E.asked("the first", threeShorts(), x -> x.get(1, 1, 0), 5);
         E.asked("the last", threeShorts(), x -> x.get(1, 1, 2), 7);
     }
 
-    private static Edges.Told twoRows() {
-        return Edges.with(Edges.row(0, 0, 1, 2, 3, 4, 5), Edges.row(3, 0, 10, 20, 30));
+    private static Told twoRows() {
+        return with(row(0, 0, 1, 2, 3, 4, 5), row(3, 0, 10, 20, 30));
     }
 
-    private static Edges.Told copied(int s, int i, int t, int j, int n) {
-        return Edges.with(twoRows(), x -> E.due("copy", x.copy(s, i, t, j, n), 1));
+    private static Told copied(int s, int i, int t, int j, int n) {
+        return with(twoRows(), x -> E.due("copy", x.copy(s, i, t, j, n), 1));
     }
 
     // Promise 22: 'n items of row s, from i on, come to row t, from j on: 1'
@@ -300,7 +298,7 @@ public final class EdgesOfRowsTest {
         items("the source stays", copied(0, 4, 3, 2, 1), 0, 0, 1, 2, 3, 4, 5);
         E.asked("none, at the beginning", twoRows(), x -> x.copy(0, 0, 3, 0, 0), 1);
         E.asked("none, behind the last of both", twoRows(), x -> x.copy(0, 5, 3, 3, 0), 1);
-        E.asked("none of 0 items", Edges.with(Edges.row(1, 2), Edges.row(2, 2)), x -> x.copy(1, 0, 2, 0, 0), 1);
+        E.asked("none of 0 items", with(row(1, 2), row(2, 2)), x -> x.copy(1, 0, 2, 0, 0), 1);
         RoadStrokes x = new RoadStrokes();
         x.sheet(0, 1, 60);
         x.sheet(1, 1, 60);
@@ -327,7 +325,7 @@ public final class EdgesOfRowsTest {
         int[] least = {-128, -32768, MIN};
         for (int f = 0; f <= 2; f++) {
             int form = f;
-            items("form " + f, Edges.with(Edges.with(Edges.row(1, form, least[f], 3), Edges.row(2, form, 0, 0)),
+            items("form " + f, with(with(row(1, form, least[f], 3), row(2, form, 0, 0)),
                 x -> x.copy(1, 0, 2, 0, 2)), 2, form, least[f], 3);
         }
     }
@@ -351,7 +349,7 @@ public final class EdgesOfRowsTest {
     private static void copyNullThenStoreThenIndex() {
         for (int from = 0; from <= 2; from++) {
             for (int to = 0; to <= 2; to++) {
-                Edges.Told two = Edges.with(Edges.row(1, from, 1, 2), Edges.row(2, to, 3, 4));
+                Told two = with(row(1, from, 1, 2), row(2, to, 3, 4));
                 if (from != to) {
                     E.found("STORE of " + from + " to " + to, two, x -> x.copy(1, 0, 2, 0, 1), STORE);
                     E.found("STORE of no items", two, x -> x.copy(1, 0, 2, 0, 0), STORE);
@@ -362,7 +360,7 @@ public final class EdgesOfRowsTest {
                 }
             }
         }
-        E.found("STORE between rows of 0 items", Edges.with(Edges.row(1, 0), Edges.row(2, 1)), x -> x.copy(1, 0, 2, 0, 0), STORE);
+        E.found("STORE between rows of 0 items", with(row(1, 0), row(2, 1)), x -> x.copy(1, 0, 2, 0, 0), STORE);
     }
 
     // Promise 22: 'INDEX: below 0'
@@ -397,13 +395,13 @@ public final class EdgesOfRowsTest {
         E.found("in one row", twoRows(), x -> x.copy(0, 0, 0, 1, 5), INDEX);
     }
 
-    private static Edges.Told fourStrokes() {
-        return Edges.net(Edges.xys(0, 0, 10, 0, 10, 10, 20, 20, 30, 20, 30, 30), Edges.road(0, 1, 0, 0),
-            Edges.road(1, 2, 0, 4), Edges.road(3, 4, 1, 1), Edges.road(4, 5, 0, 0));
+    private static Told fourStrokes() {
+        return net(xys(0, 0, 10, 0, 10, 10, 20, 20, 30, 20, 30, 30), road(0, 1, 0, 0),
+            road(1, 2, 0, 4), road(3, 4, 1, 1), road(4, 5, 0, 0));
     }
 
-    private static Edges.Told written(Edges.Told net, int form, int... items) {
-        return Edges.with(Edges.with(net, Edges.row(0, form, items)), x -> x.write(0));
+    private static Told written(Told net, int form, int... items) {
+        return with(with(net, row(0, form, items)), x -> x.write(0));
     }
 
     // Promise 23: 'STROKES by RANKS come to a row from item 0 on, as many as there are items'
@@ -411,21 +409,21 @@ public final class EdgesOfRowsTest {
         int[] want = {1, 0, 2, 3};
         for (int n = 0; n <= 4; n++) {
             int[] items = new int[n];
-            java.util.Arrays.fill(items, 99);
-            E.answers("items " + n, Edges.with(fourStrokes(), Edges.row(0, 0, items)), x -> x.write(0), n);
-            items("items " + n, written(fourStrokes(), 0, items), 0, 0, java.util.Arrays.copyOf(want, n));
+            Arrays.fill(items, 99);
+            E.answers("items " + n, with(fourStrokes(), row(0, 0, items)), x -> x.write(0), n);
+            items("items " + n, written(fourStrokes(), 0, items), 0, 0, Arrays.copyOf(want, n));
         }
     }
 
     // Promise 23: '... and STROKES: how many'
     private static void writeAsManyAsThereAreStrokes() {
-        E.answers("four of five", Edges.with(fourStrokes(), Edges.row(0, 0, 9, 9, 9, 9, 9)), x -> x.write(0), 4);
+        E.answers("four of five", with(fourStrokes(), row(0, 0, 9, 9, 9, 9, 9)), x -> x.write(0), 4);
         items("the fifth stays", written(fourStrokes(), 0, 9, 9, 9, 9, 9), 0, 0, 1, 0, 2, 3, 9);
-        E.asked("no strokes", Edges.with(Edges::sixteenMeetings, Edges.row(0, 0, 9, 9)), x -> x.write(0), 0);
-        E.answers("24 of 60", Edges.with(Edges::fullNet, x -> x.sheet(0, 2, 60)), x -> x.write(0), 24);
-        E.answers("24 of 24", Edges.with(Edges::fullNet, x -> x.sheet(0, 2, 24)), x -> x.write(0), 24);
-        E.answers("23 of 23", Edges.with(Edges::fullNet, x -> x.sheet(0, 2, 23)), x -> x.write(0), 23);
-        RoadStrokes x = Edges.made(Edges.with(Edges::fullNet, y -> y.sheet(0, 1, 25)));
+        E.asked("no strokes", with(Edges::sixteenMeetings, row(0, 0, 9, 9)), x -> x.write(0), 0);
+        E.answers("24 of 60", with(Edges::fullNet, x -> x.sheet(0, 2, 60)), x -> x.write(0), 24);
+        E.answers("24 of 24", with(Edges::fullNet, x -> x.sheet(0, 2, 24)), x -> x.write(0), 24);
+        E.answers("23 of 23", with(Edges::fullNet, x -> x.sheet(0, 2, 23)), x -> x.write(0), 23);
+        RoadStrokes x = made(with(Edges::fullNet, y -> y.sheet(0, 1, 25)));
         x.write(0);
         for (int i = 0; i < 24; i++) {
             E.due("item " + i + " of 24", x.get(0, 1, i), x.rank(i, 0));
@@ -470,7 +468,7 @@ public final class EdgesOfRowsTest {
         }
         for (int what = 0; what <= 8; what++) {
             int w = what;
-            E.asked("count(" + what + ") of all undone", Edges.with(fourStrokes(), x -> {
+            E.asked("count(" + what + ") of all undone", with(fourStrokes(), x -> {
                 for (int i = 0; i < 10; i++) {
                     x.undo();
                 }
@@ -481,7 +479,7 @@ public final class EdgesOfRowsTest {
     // Promise 24, of as many as may be
     private static void countOfMost() {
         int[] want = {16, 24, 24, 1, 872, 0, 872, 0, 0};
-        Edges.Told ring = Edges.net(Edges.ringPlaces(), Edges.ringRoads(2, 9));
+        Told ring = net(ringPlaces(), ringRoads(2, 9));
         int[] wantOfRing = {8, 8, 1, 1, 120, 1, 2520, 8, 0};
         for (int what = 0; what <= 8; what++) {
             int w = what;
@@ -492,7 +490,7 @@ public final class EdgesOfRowsTest {
 
     // Promise 24: '8 the number of the latest FINDING (0 before any)'
     private static void countTheLatestFinding() {
-        RoadStrokes x = Edges.made(Edges.with(threeShorts(), Edges.row(2, 2, 1)));
+        RoadStrokes x = made(with(threeShorts(), row(2, 2, 1)));
         E.due("before any", x.count(8), 0);
         x.lose(0);
         E.due("NULL", x.count(8), 1);
@@ -510,10 +508,10 @@ public final class EdgesOfRowsTest {
 
     // the same: calls that are no FINDING leave it, refused or not
     private static void countKeepsTheFinding() {
-        RoadStrokes x = Edges.made(Edges.with(fourStrokes(), threeShorts()));
+        RoadStrokes x = made(with(fourStrokes(), threeShorts()));
         x.get(1, 1, 3);
-        long sum = x.meeting(31, 0) + x.meeting(1, 1) + x.road(0, 0, 0, 0) + x.road(0, 2, 0, 0) + x.alter(0, 1, 9) + x.at(0, 3)
-            + x.info(0, 7) + x.joined(5, 0) + x.along(0, 0, 0) + x.stroke(0, 1) + x.rank(23, 0) + x.far(0, 0, 1)
+        long sum = x.meeting(31, 0) + x.meeting(1, 1) + x.road(0, 0, 0, 0) + x.road(0, 2, 0, 0)
+            + x.alter(0, 1, 9) + x.at(0, 3) + x.info(0, 7) + x.joined(5, 0) + x.along(0, 0, 0) + x.stroke(0, 1) + x.rank(23, 0) + x.far(0, 0, 1)
             + x.cut(0, 0, 0) + x.bridges(0) + x.detour(0) + x.useful(0) + x.sheet(2, 0, 3) + x.put(2, 0, 0, 1)
             + x.copy(2, 0, 2, 1, 1) + x.write(2) + x.lose(2) + x.sheet(4, 0, 0) + x.get(1, 1, 0) + x.get(9, 9, 9)
             + x.digest() + x.count(9) + x.undo() + x.read(1);
@@ -536,9 +534,9 @@ public final class EdgesOfRowsTest {
 
     // the same, of one MEETING, which is the first and the last, and of two
     private static void digestOfOneMeeting() {
-        E.answers("of one", Edges.net(Edges.xys(30, 0)), RoadStrokes::digest, folded(1, 0, 0, 0, 0, 0, 0, 0,
+        E.answers("of one", net(xys(30, 0)), RoadStrokes::digest, folded(1, 0, 0, 0, 0, 0, 0, 0,
             30, 0, 0, 0, 0, 0, 0, -1, -2, 0, -1, -1));
-        E.answers("of two", Edges.net(Edges.xys(30, 0, 0, 30)), RoadStrokes::digest, folded(2, 0, 0, 0, 0, 0, 0, 0,
+        E.answers("of two", net(xys(30, 0, 0, 30)), RoadStrokes::digest, folded(2, 0, 0, 0, 0, 0, 0, 0,
             30, 0, 0, 0, 30, 0, 0, 0, 0, 0, -1, -1, -1, -1, -1));
     }
 
@@ -551,12 +549,12 @@ public final class EdgesOfRowsTest {
         }
 
         /** Each part asks an object of its own, since an object is used for 512 calls at most. */
-        static Sum of(Edges.Told told) {
+        static Sum of(Told told) {
             Sum sum = new Sum();
-            sum.addMeetings(Edges.made(told));
-            sum.addRoads(Edges.made(told));
-            sum.addStrokes(Edges.made(told));
-            sum.addSheets(Edges.made(told));
+            sum.addMeetings(made(told));
+            sum.addRoads(made(told));
+            sum.addStrokes(made(told));
+            sum.addSheets(made(told));
             return sum;
         }
 
@@ -607,15 +605,21 @@ public final class EdgesOfRowsTest {
         }
     }
 
+    /** A lane at a highway's end; it is worth 39 or 40, so that 'cut(n, 40, 0 to 3)' tells them apart. */
+    private static Told deadEnd(int length, int use) {
+        return net(xys(0, 0, 10, 0, 10, length), road(0, 1, 2, 9), road(1, 2, 0, use));
+    }
+
     // Promise 25: 'h is 17; h becomes 31 h and each of: ...', of nets that hold the edges of each
     private static void digestByItsCalls() {
-        Edges.Told[] nets = {Edges::nothing, Edges::sixteenMeetings, Edges::fullNet, fourStrokes(),
-            Edges.net(Edges.ringPlaces(), Edges.ringRoads(2, 9)), Edges.with(fourStrokes(), RoadStrokes::undo),
-            Edges.with(Edges::fullNet, x -> x.alter(23, 0, 2)), Edges.with(fourStrokes(), x -> x.alter(2, 1, 0))};
+        Told[] nets = {Edges::nothing, Edges::sixteenMeetings, Edges::fullNet, fourStrokes(),
+            net(ringPlaces(), ringRoads(2, 9)), with(fourStrokes(), RoadStrokes::undo),
+            with(Edges::fullNet, x -> x.alter(23, 0, 2)), with(fourStrokes(), x -> x.alter(2, 1, 0)),
+            Edges::grid, deadEnd(13, 2), deadEnd(10, 3), deadEnd(20, 1)};
         for (int i = 0; i < nets.length; i++) {
             long want = Sum.of(nets[i]).h.longValue();
             E.answers("digest of net " + i, nets[i], RoadStrokes::digest, want);
-            E.answers("digest of net " + i + ", asked again", Edges.with(nets[i], RoadStrokes::digest),
+            E.answers("digest of net " + i + ", asked again", with(nets[i], RoadStrokes::digest),
                 RoadStrokes::digest, want);
         }
     }
@@ -632,10 +636,10 @@ public final class EdgesOfRowsTest {
 
     // Promise 25: it has neither rows nor FINDINGS
     private static void digestOfNetAlone() {
-        long want = Edges.made(fourStrokes()).digest();
-        E.answers("a row", Edges.with(fourStrokes(), threeShorts()), RoadStrokes::digest, want);
-        E.answers("a FINDING", Edges.with(fourStrokes(), x -> x.lose(0)), RoadStrokes::digest, want);
-        E.answers("it finds nothing", Edges.with(Edges::nothing, RoadStrokes::digest), x -> x.count(8), 0);
-        E.due("a meeting more is told", Edges.made(Edges.with(fourStrokes(), x -> x.meeting(1, 1))).digest() != want ? 1 : 0, 1);
+        long want = made(fourStrokes()).digest();
+        E.answers("a row", with(fourStrokes(), threeShorts()), RoadStrokes::digest, want);
+        E.answers("a FINDING", with(fourStrokes(), x -> x.lose(0)), RoadStrokes::digest, want);
+        E.answers("it finds nothing", with(Edges::nothing, RoadStrokes::digest), x -> x.count(8), 0);
+        E.due("a meeting more is told", made(with(fourStrokes(), x -> x.meeting(1, 1))).digest() != want ? 1 : 0, 1);
     }
 }

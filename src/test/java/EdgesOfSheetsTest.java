@@ -3,9 +3,7 @@
  * promises 13 to 17: a test for each sentence, which is told above it. E.refused and E.asked ask too that the call
  * changes nothing.
  */
-public final class EdgesOfSheetsTest {
-    private static final int NONE = Edges.NONE, BAD = Edges.BAD;
-    private static final int MIN = Edges.MIN, MAX = Edges.MAX;
+public final class EdgesOfSheetsTest extends Edges {
     private static final Edges E = new Edges();
 
     public static void main(String[] args) {
@@ -52,13 +50,13 @@ public final class EdgesOfSheetsTest {
     }
 
     /** Four strokes of a road each, worth 200, 10, 20, 100, which have the ranks 0 to 3, and a meeting apart. */
-    private static Edges.Told path() {
-        return Edges.net(Edges.xys(0, 0, 10, 0, 10, 10, 20, 10, 20, 20, 30, 30), Edges.road(0, 1, 1, 9),
-            Edges.road(1, 2, 0, 0), Edges.road(2, 3, 0, 1), Edges.road(3, 4, 0, 9));
+    private static Told path() {
+        return net(xys(0, 0, 10, 0, 10, 10, 20, 10, 20, 20, 30, 30), road(0, 1, 1, 9),
+            road(1, 2, 0, 0), road(2, 3, 0, 1), road(3, 4, 0, 9));
     }
 
     /** How many are cut, what is left, its length, the first that is cut. */
-    private static void cuts(String what, Edges.Told told, int n, int limit, int... want) {
+    private static void cuts(String what, Told told, int n, int limit, int... want) {
         for (int w = 0; w <= 3; w++) {
             int of = w;
             E.asked(what + ": cut(" + n + ", " + limit + ", " + w + ")", told, x -> x.cut(n, limit, of), want[w]);
@@ -84,7 +82,7 @@ public final class EdgesOfSheetsTest {
 
     // the same, of no STROKES
     private static void sheetsOfNoStrokes() {
-        Edges.Told two = Edges.net(Edges.xys(0, 0, 1, 1));
+        Told two = net(xys(0, 0, 1, 1));
         E.asked("sheet 0", two, x -> x.bridges(0), 0);
         E.asked("sheet 0", two, x -> x.far(0, 0, 1), NONE);
         cuts("sheet 0", two, 0, 9999, 0, 0, 0, NONE);
@@ -112,9 +110,9 @@ public final class EdgesOfSheetsTest {
             E.refused("sheet " + n, path(), x -> x.cut(n, 40, 0), BAD);
             E.refused("sheet " + n, path(), x -> x.bridges(n), BAD);
         }
-        Edges.Told joined = Edges.net(Edges.xys(0, 0, 10, 0, 20, 0), Edges.road(0, 1, 0, 0), Edges.road(1, 2, 0, 0));
+        Told joined = net(xys(0, 0, 10, 0, 20, 0), road(0, 1, 0, 0), road(1, 2, 0, 0));
         E.refused("as many as strokes, not as roads", joined, x -> x.bridges(2), BAD);
-        E.refused("fewer when undone", Edges.with(path(), RoadStrokes::undo), x -> x.bridges(4), BAD);
+        E.refused("fewer when undone", with(path(), RoadStrokes::undo), x -> x.bridges(4), BAD);
     }
 
     // 'CUTTING a SHEET by LIMIT (0 to 9999)'
@@ -136,18 +134,18 @@ public final class EdgesOfSheetsTest {
         cuts("one more", path(), 4, 101, 3, 1, 10, 3);
         cuts("just its worth", path(), 3, 20, 0, 7, 30, NONE);
         cuts("one more", path(), 3, 21, 2, 1, 10, 2);
-        Edges.Told least = Edges.net(Edges.xys(0, 0, 1, 0, 1, 1), Edges.road(0, 1, 0, 1), Edges.road(1, 2, 0, 0));
+        Told least = net(xys(0, 0, 1, 0, 1, 1), road(0, 1, 0, 1), road(1, 2, 0, 0));
         cuts("worth 1, limit 1", least, 2, 1, 0, 3, 2, NONE);
         cuts("worth 1, limit 2", least, 2, 2, 1, 1, 1, 1);
     }
 
     // 'and is not the only one of its NET'
     private static void cutNotTheOnlyOneOfItsNet() {
-        Edges.Told three = Edges.net(Edges.xys(0, 0, 5, 0, 20, 20, 25, 20, 0, 20, 5, 25),
-            Edges.road(0, 1, 0, 0), Edges.road(2, 3, 0, 1), Edges.road(4, 5, 0, 0));
+        Told three = net(xys(0, 0, 5, 0, 20, 20, 25, 20, 0, 20, 5, 25),
+            road(0, 1, 0, 0), road(2, 3, 0, 1), road(4, 5, 0, 0));
         cuts("three nets of one each", three, 3, 9999, 0, 7, 20, NONE);
-        cuts("one net of one", Edges.net(Edges.xys(0, 0, 5, 0), Edges.road(0, 1, 0, 0)), 1, 9999, 0, 1, 5, NONE);
-        Edges.Told more = Edges.with(three, x -> {
+        cuts("one net of one", net(xys(0, 0, 5, 0), road(0, 1, 0, 0)), 1, 9999, 0, 1, 5, NONE);
+        Told more = with(three, x -> {
             x.meeting(5, 5);
             x.road(1, 6, 0, 0);
             x.meeting(25, 25);
@@ -159,7 +157,7 @@ public final class EdgesOfSheetsTest {
     // the same: of those that are left of the SHEET
     private static void cutNotTheOnlyOneOnASmallerSheet() {
         cuts("its net has others, the sheet has not", path(), 1, 9999, 0, 1, 10, NONE);
-        Edges.Told two = Edges.with(path(), x -> {
+        Told two = with(path(), x -> {
             x.meeting(30, 25);
             x.road(5, 6, 0, 0);
             x.meeting(25, 25);
@@ -172,8 +170,8 @@ public final class EdgesOfSheetsTest {
     // 'the one with the least WORTH ... is CUT'
     private static void cutTheLeastWorth() {
         // a trunk that is worth 240, with three on it that are worth 30, 20, 40
-        Edges.Told comb = Edges.net(Edges.xys(0, 10, 10, 10, 20, 10, 0, 20, 10, 20, 20, 20), Edges.road(0, 1, 2, 0),
-            Edges.road(1, 2, 2, 0), Edges.road(0, 3, 0, 2), Edges.road(1, 4, 0, 1), Edges.road(2, 5, 0, 3));
+        Told comb = net(xys(0, 10, 10, 10, 20, 10, 0, 20, 10, 20, 20, 20), road(0, 1, 2, 0),
+            road(1, 2, 2, 0), road(0, 3, 0, 2), road(1, 4, 0, 1), road(2, 5, 0, 3));
         cuts("one", comb, 4, 21, 1, 11, 40, 2);
         cuts("two", comb, 4, 31, 2, 9, 30, 2);
         cuts("three", comb, 4, 41, 3, 1, 20, 2);
@@ -181,17 +179,17 @@ public final class EdgesOfSheetsTest {
 
     // 'of like ones the greatest number'
     private static void cutOfLikeOnesTheGreatestNumber() {
-        Edges.Told comb = Edges.net(Edges.xys(0, 10, 10, 10, 20, 10, 0, 20, 10, 20, 20, 20), Edges.road(0, 3, 0, 1),
-            Edges.road(1, 4, 1, 0), Edges.road(2, 5, 0, 1), Edges.road(0, 1, 2, 0), Edges.road(1, 2, 2, 0));
+        Told comb = net(xys(0, 10, 10, 10, 20, 10, 0, 20, 10, 20, 20, 20), road(0, 3, 0, 1),
+            road(1, 4, 1, 0), road(2, 5, 0, 1), road(0, 1, 2, 0), road(1, 2, 2, 0));
         cuts("three like ones", comb, 4, 21, 3, 8, 20, 2);
-        cuts("without the greatest", Edges.with(comb, x -> x.alter(2, 1, 9)), 4, 21, 2, 12, 30, 1);
-        cuts("two left, like", Edges.net(Edges.xys(0, 0, 5, 0, 5, 5), Edges.road(0, 1, 0, 0), Edges.road(1, 2, 0, 0)),
+        cuts("without the greatest", with(comb, x -> x.alter(2, 1, 9)), 4, 21, 2, 12, 30, 1);
+        cuts("two left, like", net(xys(0, 0, 5, 0, 5, 5), road(0, 1, 0, 0), road(1, 2, 0, 0)),
             2, 9999, 1, 1, 5, 1);
     }
 
     // 'as long as there is a STROKE of it that is a DEAD END'
     private static void cutAsLongAsThereIsOne() {
-        Edges.Told stairs = x -> {
+        Told stairs = x -> {
             for (int m = 0; m < 16; m++) {
                 x.meeting(2 * ((m + 1) / 2), 2 * (m / 2));
             }
@@ -202,15 +200,15 @@ public final class EdgesOfSheetsTest {
         E.answers("fifteen strokes", stairs, x -> x.count(2), 15);
         cuts("all but one", stairs, 15, 3, 14, 1, 2, 14);
         cuts("none", stairs, 15, 2, 0, 0x7fff, 30, NONE);
-        cuts("till one is worth too much", Edges.with(stairs, x -> x.alter(7, 1, 1)), 15, 3, 14, 1 << 7, 2, 14);
-        cuts("of those worth most one stays too", Edges.with(stairs, x -> {
+        cuts("till one is worth too much", with(stairs, x -> x.alter(7, 1, 1)), 15, 3, 14, 1 << 7, 2, 14);
+        cuts("of those worth most one stays too", with(stairs, x -> {
             x.alter(7, 1, 1);
             x.alter(9, 1, 1);
         }), 15, 3, 12, 7 << 7, 6, 14);
     }
 
-    private static Edges.Told ringWithTail(int tailUse) {
-        return Edges.with(Edges.net(Edges.ringPlaces(), Edges.ringRoads(0, 0)), x -> {
+    private static Told ringWithTail(int tailUse) {
+        return with(net(ringPlaces(), ringRoads(0, 0)), x -> {
             x.meeting(10, 10);
             x.road(8, 0, 1, tailUse);
         });
@@ -221,12 +219,12 @@ public final class EdgesOfSheetsTest {
         cuts("the ring is worth 120, the tail 200", ringWithTail(9), 2, 200, 0, 3, 130, NONE);
         cuts("the tail alone is cut", ringWithTail(9), 2, 201, 1, 1, 120, 1);
         cuts("by any limit", ringWithTail(9), 2, 9999, 1, 1, 120, 1);
-        Edges.Told longer = Edges.with(Edges.net(Edges.ringPlaces(), Edges.ringRoads(1, 0)), x -> {
+        Told longer = with(net(ringPlaces(), ringRoads(1, 0)), x -> {
             x.meeting(11, 29);
             x.road(8, 0, 1, 9);
         });
         cuts("closed, worth 240", longer, 2, 321, 0, 3, 150, NONE);
-        cuts("open by a lane and a highway, worth 320", Edges.with(longer, x -> {
+        cuts("open by a lane and a highway, worth 320", with(longer, x -> {
             x.alter(3, 0, 0);
             x.alter(4, 0, 2);
         }), 2, 321, 1, 2, 30, 0);
@@ -234,16 +232,16 @@ public final class EdgesOfSheetsTest {
 
     // 'and at one of its two ends, at least, no other STROKE that is left is at that MEETING'
     private static void deadEndAtOneOfItsTwoEnds() {
-        int[] at = Edges.xys(0, 0, 10, 0, 10, 10);
-        cuts("its first end", Edges.net(at, Edges.road(0, 1, 0, 0), Edges.road(1, 2, 2, 0)), 2, 11, 1, 2, 10, 0);
-        cuts("its second end", Edges.net(at, Edges.road(1, 0, 0, 0), Edges.road(1, 2, 2, 0)), 2, 11, 1, 2, 10, 0);
-        cuts("the highest meeting", Edges.net(at, Edges.road(0, 1, 2, 0), Edges.road(1, 2, 0, 0)), 2, 11, 1, 1, 10, 1);
+        int[] at = xys(0, 0, 10, 0, 10, 10);
+        cuts("its first end", net(at, road(0, 1, 0, 0), road(1, 2, 2, 0)), 2, 11, 1, 2, 10, 0);
+        cuts("its second end", net(at, road(1, 0, 0, 0), road(1, 2, 2, 0)), 2, 11, 1, 2, 10, 0);
+        cuts("the highest meeting", net(at, road(0, 1, 2, 0), road(1, 2, 0, 0)), 2, 11, 1, 1, 10, 1);
     }
 
     // the same: 'at least'
     private static void deadEndAtBothEnds() {
-        Edges.Told tee = Edges.net(Edges.xys(0, 10, 10, 10, 20, 10, 10, 20), Edges.road(0, 1, 0, 0), Edges.road(1, 2, 0, 0),
-            Edges.road(1, 3, 2, 0));
+        Told tee = net(xys(0, 10, 10, 10, 20, 10, 10, 20), road(0, 1, 0, 0), road(1, 2, 0, 0),
+            road(1, 3, 2, 0));
         E.answers("two strokes", tee, x -> x.count(2), 2);
         cuts("bare at both, touched between", tee, 2, 21, 1, 2, 10, 0);
         cuts("not by its own worth", tee, 2, 20, 0, 3, 30, NONE);
@@ -252,16 +250,16 @@ public final class EdgesOfSheetsTest {
     // the same: another STROKE at both of its ends
     private static void noDeadEndWhereAnotherIs() {
         cuts("between two", path(), 4, 100, 0, 15, 40, NONE);
-        Edges.Told square = Edges.net(Edges.xys(0, 0, 10, 0, 10, 10, 0, 10), Edges.road(0, 1, 0, 0), Edges.road(1, 2, 0, 0),
-            Edges.road(2, 3, 0, 0), Edges.road(3, 0, 0, 0));
+        Told square = net(xys(0, 0, 10, 0, 10, 10, 0, 10), road(0, 1, 0, 0), road(1, 2, 0, 0),
+            road(2, 3, 0, 0), road(3, 0, 0, 0));
         cuts("a square", square, 4, 9999, 0, 15, 40, NONE);
         cuts("three sides", square, 3, 9999, 2, 1, 10, 2);
     }
 
     // the same: at that MEETING, not at that one's end
     private static void noDeadEndOnAnothersMiddle() {
-        Edges.Told ladder = Edges.net(Edges.xys(0, 0, 10, 0, 20, 0, 0, 10, 10, 10, 20, 10), Edges.road(0, 1, 2, 0),
-            Edges.road(1, 2, 2, 0), Edges.road(3, 4, 2, 0), Edges.road(4, 5, 2, 0), Edges.road(1, 4, 0, 0));
+        Told ladder = net(xys(0, 0, 10, 0, 20, 0, 0, 10, 10, 10, 20, 10), road(0, 1, 2, 0),
+            road(1, 2, 2, 0), road(3, 4, 2, 0), road(4, 5, 2, 0), road(1, 4, 0, 0));
         E.answers("three strokes", ladder, x -> x.count(2), 3);
         cuts("a rung", ladder, 3, 240, 0, 7, 50, NONE);
         cuts("when a side is gone", ladder, 3, 241, 2, 1, 20, 1);
@@ -276,7 +274,7 @@ public final class EdgesOfSheetsTest {
 
     // the same: 'no other STROKE', where it ends on itself
     private static void deadEndThatMeetsItself() {
-        Edges.Told drop = Edges.with(Edges.net(Edges.ringPlaces(), Edges.ringRoads(0, 0)), x -> {
+        Told drop = with(net(ringPlaces(), ringRoads(0, 0)), x -> {
             x.meeting(0, 0);
             x.road(8, 0, 0, 0);
             x.meeting(5, 5);
@@ -286,7 +284,7 @@ public final class EdgesOfSheetsTest {
         E.answers("two strokes", drop, x -> x.count(2), 2);
         cuts("no other one is at the end on itself", drop, 2, 131, 1, 2, 10, 0);
         cuts("but for its worth", drop, 2, 130, 0, 3, 140, NONE);
-        Edges.Told held = Edges.with(drop, x -> {
+        Told held = with(drop, x -> {
             x.meeting(10, 10);
             x.road(0, 10, 2, 9);
         });
@@ -296,13 +294,13 @@ public final class EdgesOfSheetsTest {
     // 'and without it the STROKES left that are in one NET are in one still (by TOUCHING)'
     private static void noDeadEndThatPartsTheNet() {
         // stroke 0 goes on from stroke 1's end by stroke 2's and has a bare end; it is worth 20, they 120 and 200
-        int[] at = Edges.xys(10, 0, 10, 10, 10, 20, 0, 0, 20, 10);
-        Edges.Told trunk = Edges.net(at, Edges.road(0, 1, 0, 0), Edges.road(1, 2, 0, 0), Edges.road(3, 0, 2, 0),
-            Edges.road(1, 4, 1, 9));
+        int[] at = xys(10, 0, 10, 10, 10, 20, 0, 0, 20, 10);
+        Told trunk = net(at, road(0, 1, 0, 0), road(1, 2, 0, 0), road(3, 0, 2, 0),
+            road(1, 4, 1, 9));
         E.answers("three strokes", trunk, x -> x.count(2), 3);
         cuts("it would part two", trunk, 3, 120, 0, 7, 40, NONE);
         cuts("till one of these is cut", trunk, 3, 121, 2, 4, 10, 1);
-        Edges.Told round = Edges.with(trunk, x -> {
+        Told round = with(trunk, x -> {
             x.meeting(20, 5);
             x.road(4, 5, 1, 9);
             x.meeting(0, 5);
@@ -331,14 +329,14 @@ public final class EdgesOfSheetsTest {
     private static void cutFirstOrNone() {
         E.asked("none is cut", path(), x -> x.cut(4, 100, 3), NONE);
         E.asked("the first, not the last", path(), x -> x.cut(4, 101, 3), 3);
-        E.asked("stroke 0 is one too", Edges.with(path(), x -> x.alter(0, 1, 0)), x -> x.cut(4, 21, 3), 0);
+        E.asked("stroke 0 is one too", with(path(), x -> x.alter(0, 1, 0)), x -> x.cut(4, 21, 3), 0);
     }
 
     // 'FAR of two MEETINGS on SHEET n: the least LENGTH of a way by ROADS of its STROKES'
     private static void farTheLeastLength() {
         // a short way of lanes, a long way of highways; the first sheets have the highways alone
-        Edges.Told two = Edges.net(Edges.xys(0, 0, 0, 30, 30, 30, 30, 0, 15, 1), Edges.road(0, 1, 2, 9), Edges.road(1, 2, 2, 9),
-            Edges.road(2, 3, 2, 9), Edges.road(0, 4, 0, 0), Edges.road(4, 3, 0, 0));
+        Told two = net(xys(0, 0, 0, 30, 30, 30, 30, 0, 15, 1), road(0, 1, 2, 9), road(1, 2, 2, 9),
+            road(2, 3, 2, 9), road(0, 4, 0, 0), road(4, 3, 0, 0));
         E.answers("four strokes", two, x -> x.count(2), 4);
         E.asked("the long way", two, x -> x.far(3, 0, 3), 90);
         E.asked("the short way", two, x -> x.far(4, 0, 3), 32);
@@ -353,7 +351,7 @@ public final class EdgesOfSheetsTest {
         E.asked("on this one", path(), x -> x.far(2, 0, 2), 20);
         E.asked("to a meeting without roads", path(), x -> x.far(4, 0, 5), NONE);
         E.asked("from it", path(), x -> x.far(4, 5, 0), NONE);
-        E.asked("in another net", Edges.net(Edges.xys(0, 0, 1, 0, 0, 9, 1, 9), Edges.road(0, 1, 0, 0), Edges.road(2, 3, 0, 0)),
+        E.asked("in another net", net(xys(0, 0, 1, 0, 0, 9, 1, 9), road(0, 1, 0, 0), road(2, 3, 0, 0)),
             x -> x.far(2, 1, 3), NONE);
     }
 
@@ -373,14 +371,14 @@ public final class EdgesOfSheetsTest {
             E.refused("on sheet 0 to " + v, path(), x -> x.far(0, 0, v), BAD);
         }
         E.asked("to the last one", path(), x -> x.far(4, 5, 5), 0);
-        E.refused("the second of one", Edges.net(Edges.xys(1, 1)), x -> x.far(0, 0, 1), BAD);
+        E.refused("the second of one", net(xys(1, 1)), x -> x.far(0, 0, 1), BAD);
         E.refused("of none", Edges::nothing, x -> x.far(0, 0, 0), BAD);
     }
 
     // 'DETOUR of a ROAD: FAR of its MEETINGS on the SHEET of all, without that ROAD, less its LENGTH'
     private static void detourOnTheSheetOfAll() {
-        Edges.Told square = Edges.net(Edges.xys(0, 0, 10, 0, 10, 9, 0, 9), Edges.road(0, 1, 2, 9), Edges.road(2, 1, 0, 0),
-            Edges.road(2, 3, 0, 0), Edges.road(0, 3, 0, 0));
+        Told square = net(xys(0, 0, 10, 0, 10, 9, 0, 9), road(0, 1, 2, 9), road(2, 1, 0, 0),
+            road(2, 3, 0, 0), road(0, 3, 0, 0));
         E.asked("by the other three", square, x -> x.detour(0), 9 + 10 + 9 - 10);
         E.asked("of a lane too", square, x -> x.detour(3), 10 + 9 + 10 - 9);
         E.asked("told the other way round", square, x -> x.detour(1), 10 + 9 + 10 - 9);
@@ -388,8 +386,8 @@ public final class EdgesOfSheetsTest {
 
     // the same: a way as long
     private static void detourOfAsLongAWay() {
-        Edges.Told three = Edges.net(Edges.xys(0, 0, 10, 10, 10, 0), Edges.road(0, 1, 0, 0), Edges.road(0, 2, 0, 0),
-            Edges.road(2, 1, 0, 0));
+        Told three = net(xys(0, 0, 10, 10, 10, 0), road(0, 1, 0, 0), road(0, 2, 0, 0),
+            road(2, 1, 0, 0));
         E.asked("0", three, x -> x.detour(0), 0);
         E.asked("more", three, x -> x.detour(1), 20);
     }
@@ -410,48 +408,48 @@ public final class EdgesOfSheetsTest {
         }
         E.asked("road 23", Edges::fullNet, x -> x.detour(23), 58 + 30 + 34 - 54);
         E.refused("road 24", Edges::fullNet, x -> x.detour(24), BAD);
-        E.refused("no road at all", Edges.net(Edges.xys(0, 0, 1, 1)), x -> x.detour(0), BAD);
+        E.refused("no road at all", net(xys(0, 0, 1, 1)), x -> x.detour(0), BAD);
     }
 
-    private static void useful(String what, Edges.Told told, int which, int much) {
+    private static void useful(String what, Told told, int which, int much) {
         E.asked(what + ": useful(0)", told, x -> x.useful(0), which);
         E.asked(what + ": useful(1)", told, x -> x.useful(1), much);
     }
 
     // 'USEFUL is the ROAD whose USE, were it 9, makes the SHEET of the first RANK worth most'
     private static void usefulWorthMost() {
-        int[] at = Edges.xys(0, 0, 10, 0, 20, 0, 29, 0);
-        useful("one road", Edges.net(at, Edges.road(0, 1, 0, 0)), 0, 100);
-        useful("one road that has it", Edges.net(at, Edges.road(0, 1, 0, 9)), 0, 100);
-        useful("the street of a stroke", Edges.net(at, Edges.road(0, 1, 0, 0), Edges.road(1, 2, 1, 0)), 1, 210);
-        useful("what is gained, not what it is worth", Edges.net(at, Edges.road(0, 1, 1, 8), Edges.road(1, 2, 1, 0)), 1, 380);
-        useful("the longer one", Edges.net(at, Edges.road(3, 2, 1, 0), Edges.road(0, 1, 1, 0), Edges.road(1, 2, 1, 0)),
+        int[] at = xys(0, 0, 10, 0, 20, 0, 29, 0);
+        useful("one road", net(at, road(0, 1, 0, 0)), 0, 100);
+        useful("one road that has it", net(at, road(0, 1, 0, 9)), 0, 100);
+        useful("the street of a stroke", net(at, road(0, 1, 0, 0), road(1, 2, 1, 0)), 1, 210);
+        useful("what is gained, not what it is worth", net(at, road(0, 1, 1, 8), road(1, 2, 1, 0)), 1, 380);
+        useful("the longer one", net(at, road(3, 2, 1, 0), road(0, 1, 1, 0), road(1, 2, 1, 0)),
             1, 200 + 20 + 18);
-        useful("a highway gains less than a street", Edges.net(at, Edges.road(0, 1, 2, 0), Edges.road(1, 2, 1, 0)), 1, 320);
+        useful("a highway gains less than a street", net(at, road(0, 1, 2, 0), road(1, 2, 1, 0)), 1, 320);
     }
 
     // '(STROKES, RANKS anew)'
     private static void usefulRanksAnew() {
-        int[] at = Edges.xys(0, 0, 10, 0, 0, 20, 10, 20, 20, 10, 30, 10);
-        useful("the first one gains less, but is worth more", Edges.net(at, Edges.road(0, 1, 2, 7), Edges.road(2, 3, 1, 0)), 0, 210);
-        useful("another one becomes the first", Edges.net(at, Edges.road(0, 1, 0, 8), Edges.road(2, 3, 1, 3)), 1, 200);
-        useful("of another net", Edges.net(at, Edges.road(0, 1, 0, 9), Edges.road(2, 3, 0, 9), Edges.road(4, 5, 2, 0)), 2, 210);
-        useful("none does", Edges.net(at, Edges.road(0, 1, 0, 0), Edges.road(2, 3, 0, 0), Edges.road(4, 5, 2, 9)), 0, 210);
+        int[] at = xys(0, 0, 10, 0, 0, 20, 10, 20, 20, 10, 30, 10);
+        useful("the first one gains less, but is worth more", net(at, road(0, 1, 2, 7), road(2, 3, 1, 0)), 0, 210);
+        useful("another one becomes the first", net(at, road(0, 1, 0, 8), road(2, 3, 1, 3)), 1, 200);
+        useful("of another net", net(at, road(0, 1, 0, 9), road(2, 3, 0, 9), road(4, 5, 2, 0)), 2, 210);
+        useful("none does", net(at, road(0, 1, 0, 0), road(2, 3, 0, 0), road(4, 5, 2, 9)), 0, 210);
     }
 
     // 'of like ones the least'
     private static void usefulOfLikeOnesTheLeast() {
-        int[] at = Edges.xys(0, 0, 10, 0, 20, 0, 0, 20, 10, 20);
-        useful("of one stroke", Edges.net(at, Edges.road(0, 1, 1, 3), Edges.road(1, 2, 1, 3)), 0, 280);
-        useful("of two strokes", Edges.net(at, Edges.road(0, 1, 1, 3), Edges.road(3, 4, 1, 5)), 0, 200);
-        useful("all have it", Edges.net(at, Edges.road(3, 4, 0, 9), Edges.road(0, 1, 0, 9), Edges.road(1, 2, 0, 9)), 0, 200);
+        int[] at = xys(0, 0, 10, 0, 20, 0, 0, 20, 10, 20);
+        useful("of one stroke", net(at, road(0, 1, 1, 3), road(1, 2, 1, 3)), 0, 280);
+        useful("of two strokes", net(at, road(0, 1, 1, 3), road(3, 4, 1, 5)), 0, 200);
+        useful("all have it", net(at, road(3, 4, 0, 9), road(0, 1, 0, 9), road(1, 2, 0, 9)), 0, 200);
     }
 
     // Promise 17: 'NONE: there are no ROADS'
     private static void usefulNone() {
         useful("a new object", Edges::nothing, NONE, NONE);
         useful("meetings alone", Edges::sixteenMeetings, NONE, NONE);
-        useful("all is undone", Edges.with(Edges.net(Edges.xys(0, 0, 1, 0), Edges.road(0, 1, 0, 0)), RoadStrokes::undo),
+        useful("all is undone", with(net(xys(0, 0, 1, 0), road(0, 1, 0, 0)), RoadStrokes::undo),
             NONE, NONE);
     }
 
@@ -462,42 +460,42 @@ public final class EdgesOfSheetsTest {
             E.refused("BAD, though there are no roads: what " + what, Edges::nothing, x -> x.useful(what), BAD);
         }
         useful("24 roads", Edges::fullNet, 15, 580);
-        useful("the last of 24", Edges.with(Edges::fullNet, x -> x.alter(23, 0, 1)), 23, 54 * 20);
+        useful("the last of 24", with(Edges::fullNet, x -> x.alter(23, 0, 1)), 23, 54 * 20);
     }
 
     // 'BRIDGES of SHEET n: its ROADS without each of which some that were joined (by ROADS of it) are not, as bits'
     private static void bridgesOfEachSheet() {
-        Edges.Told square = Edges.net(Edges.xys(0, 0, 10, 0, 10, 10, 0, 10), Edges.road(0, 1, 0, 3), Edges.road(1, 2, 0, 2),
-            Edges.road(2, 3, 0, 1), Edges.road(3, 0, 0, 0));
+        Told square = net(xys(0, 0, 10, 0, 10, 10, 0, 10), road(0, 1, 0, 3), road(1, 2, 0, 2),
+            road(2, 3, 0, 1), road(3, 0, 0, 0));
         int[] want = {0, 1, 3, 7, 0};
         for (int n = 0; n <= 4; n++) {
             int sheet = n;
             E.asked("a square, sheet " + n, square, x -> x.bridges(sheet), want[n]);
         }
-        Edges.Told two = Edges.net(Edges.xys(0, 0, 1, 0, 0, 9, 1, 9), Edges.road(0, 1, 0, 0), Edges.road(2, 3, 0, 0));
+        Told two = net(xys(0, 0, 1, 0, 0, 9, 1, 9), road(0, 1, 0, 0), road(2, 3, 0, 0));
         E.asked("two nets", two, x -> x.bridges(2), 3);
         E.asked("the first of two nets", two, x -> x.bridges(1), 1);
     }
 
     // the same: ROADS of a ring are none, each of those of a ring that lacks one is
     private static void bridgesOfARing() {
-        Edges.Told ring = Edges.net(Edges.ringPlaces(), Edges.ringRoads(0, 0));
+        Told ring = net(ringPlaces(), ringRoads(0, 0));
         E.asked("a ring", ring, x -> x.bridges(1), 0);
-        E.asked("a road less", Edges.with(ring, RoadStrokes::undo), x -> x.bridges(1), 0x7f);
+        E.asked("a road less", with(ring, RoadStrokes::undo), x -> x.bridges(1), 0x7f);
         E.asked("with a tail", ringWithTail(0), x -> x.bridges(2), 1 << 8);
     }
 
     // the same: 'as bits', of as many as may be
     private static void bridgesOfAll() {
-        Edges.Told star = x -> {
-            Edges.sixteenMeetings(x);
+        Told star = x -> {
+            sixteenMeetings(x);
             for (int m = 1; m < 16; m++) {
                 x.road(0, m, 0, 0);
             }
         };
         E.asked("fifteen", star, x -> x.bridges(x.count(2)), 0x7fff);
-        Edges.Told last = x -> {
-            Edges.sixteenMeetings(x);
+        Told last = x -> {
+            sixteenMeetings(x);
             for (int r = 0; r < 23; r++) {
                 x.road(r % 8, 8 + (r % 8 + r / 8) % 7, 0, 0);
             }

@@ -2,9 +2,7 @@
  * The edges that the document names in 'Terms' of ALONG, JOINED, STROKES and RANKS, and in promises 9 to 12: a test
  * for each sentence, which is told above it. E.refused asks too that the call changes nothing.
  */
-public final class EdgesOfStrokesTest {
-    private static final int NONE = Edges.NONE, BAD = Edges.BAD, NOT = Edges.NOT;
-    private static final int MIN = Edges.MIN, MAX = Edges.MAX;
+public final class EdgesOfStrokesTest extends Edges {
     private static final Edges E = new Edges();
 
     public static void main(String[] args) {
@@ -22,6 +20,8 @@ public final class EdgesOfStrokesTest {
         aHighwayAndALaneArePassedOver();
         strokeOfOneRoad();
         strokeOfAllThatAreJoined();
+        strokesOfTheLastRoads();
+        strokesOfWhatIsLeft();
         numberedByTheirLeastRoads();
         closedIfJoinedAtBothEndsOfEach();
         notClosedOneRoadShort();
@@ -47,8 +47,8 @@ public final class EdgesOfStrokesTest {
     }
 
     /** Two lanes from the first place to the other two. */
-    private static Edges.Told fork(int... places) {
-        return Edges.net(places, Edges.road(0, 1, 0, 0), Edges.road(2, 0, 0, 0));
+    private static Told fork(int... places) {
+        return net(places, road(0, 1, 0, 0), road(2, 0, 0, 0));
     }
 
     private static void isAlong(String what, int along, int... places) {
@@ -95,68 +95,68 @@ public final class EdgesOfStrokesTest {
 
     // 'if p times p by u's own product times v's own is more (as fractions, exactly)'
     private static void straighterAsFractionsExactly() {
-        int[] at = Edges.xys(7, 8, 0, 0, 26, 29, 18, 21);
+        int[] at = xys(7, 8, 0, 0, 26, 29, 18, 21);
         // to (18, 21) 32761 / 32770, to (26, 29) 90601 / 90626: 0.999725.. and 0.999724..
-        E.answers("the greater fraction, though of the greater road", Edges.net(at, Edges.road(0, 1, 0, 0),
-            Edges.road(0, 2, 0, 0), Edges.road(0, 3, 0, 0)), x -> x.joined(0, 0), 2);
-        E.answers("the greater fraction, of the lesser road", Edges.net(at, Edges.road(0, 1, 0, 0),
-            Edges.road(0, 3, 0, 0), Edges.road(0, 2, 0, 0)), x -> x.joined(0, 0), 1);
-        E.answers("the other one is left", Edges.net(at, Edges.road(0, 1, 0, 0),
-            Edges.road(0, 2, 0, 0), Edges.road(0, 3, 0, 0)), x -> x.joined(0, 1), NONE);
+        E.answers("the greater fraction, though of the greater road", net(at, road(0, 1, 0, 0),
+            road(0, 2, 0, 0), road(0, 3, 0, 0)), x -> x.joined(0, 0), 2);
+        E.answers("the greater fraction, of the lesser road", net(at, road(0, 1, 0, 0),
+            road(0, 3, 0, 0), road(0, 2, 0, 0)), x -> x.joined(0, 0), 1);
+        E.answers("the other one is left", net(at, road(0, 1, 0, 0),
+            road(0, 2, 0, 0), road(0, 3, 0, 0)), x -> x.joined(0, 1), NONE);
     }
 
     // the same: the fraction, not p times p alone, nor the own products alone
     private static void straighterNotByLength() {
-        int[] at = Edges.xys(2, 10, 0, 10, 30, 11, 3, 10);
-        Edges.Told longer = Edges.net(at, Edges.road(0, 1, 0, 0), Edges.road(0, 2, 0, 0), Edges.road(0, 3, 0, 0));
+        int[] at = xys(2, 10, 0, 10, 30, 11, 3, 10);
+        Told longer = net(at, road(0, 1, 0, 0), road(0, 2, 0, 0), road(0, 3, 0, 0));
         E.answers("a short one that is straight", longer, x -> x.joined(0, 0), 2);
-        int[] other = Edges.xys(10, 10, 0, 10, 11, 11, 30, 11);
-        Edges.Told shorter = Edges.net(other, Edges.road(0, 1, 0, 0), Edges.road(0, 2, 0, 0), Edges.road(0, 3, 0, 0));
+        int[] other = xys(10, 10, 0, 10, 11, 11, 30, 11);
+        Told shorter = net(other, road(0, 1, 0, 0), road(0, 2, 0, 0), road(0, 3, 0, 0));
         E.answers("a long one that is straighter", shorter, x -> x.joined(0, 0), 2);
     }
 
     // 'of like ones the one with the lesser least ROAD'
     private static void ofLikeOnesTheLesserLeastRoad() {
-        int[] at = Edges.xys(10, 10, 20, 10, 0, 12, 0, 8);
-        Edges.Told last = Edges.net(at, Edges.road(0, 2, 0, 0), Edges.road(0, 3, 0, 0), Edges.road(0, 1, 0, 0));
+        int[] at = xys(10, 10, 20, 10, 0, 12, 0, 8);
+        Told last = net(at, road(0, 2, 0, 0), road(0, 3, 0, 0), road(0, 1, 0, 0));
         E.answers("0 and 2, 1 and 2: the first", last, x -> x.joined(0, 2), 0);
         E.answers("1 is left", last, x -> x.joined(0, 1), NONE);
-        Edges.Told turned = Edges.net(at, Edges.road(3, 0, 0, 0), Edges.road(2, 0, 0, 0), Edges.road(1, 0, 0, 0));
+        Told turned = net(at, road(3, 0, 0, 0), road(2, 0, 0, 0), road(1, 0, 0, 0));
         E.answers("by numbers, not by places", turned, x -> x.joined(0, 2), 0);
-        Edges.Told between = Edges.net(at, Edges.road(0, 2, 0, 0), Edges.road(0, 1, 0, 0), Edges.road(0, 3, 0, 0));
+        Told between = net(at, road(0, 2, 0, 0), road(0, 1, 0, 0), road(0, 3, 0, 0));
         E.answers("0 and 1, 1 and 2: the first", between, x -> x.joined(0, 1), 0);
         E.answers("2 is left", between, x -> x.joined(0, 2), NONE);
     }
 
     // 'of like ones the lesser other one'
     private static void ofLikeOnesTheLesserOtherOne() {
-        int[] at = Edges.xys(10, 10, 20, 10, 0, 12, 0, 8);
-        Edges.Told first = Edges.net(at, Edges.road(0, 1, 0, 0), Edges.road(0, 2, 0, 0), Edges.road(0, 3, 0, 0));
+        int[] at = xys(10, 10, 20, 10, 0, 12, 0, 8);
+        Told first = net(at, road(0, 1, 0, 0), road(0, 2, 0, 0), road(0, 3, 0, 0));
         E.answers("0 and 1, 0 and 2: the first", first, x -> x.joined(0, 0), 1);
         E.answers("2 is left", first, x -> x.joined(0, 2), NONE);
-        Edges.Told turned = Edges.net(at, Edges.road(0, 1, 0, 0), Edges.road(0, 3, 0, 0), Edges.road(0, 2, 0, 0));
+        Told turned = net(at, road(0, 1, 0, 0), road(0, 3, 0, 0), road(0, 2, 0, 0));
         E.answers("by numbers, not by places", turned, x -> x.joined(0, 0), 1);
     }
 
     // 'of like ones', where the fractions are like and the numbers in them are not
     private static void likeOfUnlikeLengths() {
-        int[] at = Edges.xys(10, 10, 0, 10, 12, 10, 30, 10);
-        E.answers("the nearer is the lesser", Edges.net(at, Edges.road(0, 1, 0, 0), Edges.road(0, 2, 0, 0),
-            Edges.road(0, 3, 0, 0)), x -> x.joined(0, 0), 1);
-        E.answers("the farther is the lesser", Edges.net(at, Edges.road(0, 1, 0, 0), Edges.road(0, 3, 0, 0),
-            Edges.road(0, 2, 0, 0)), x -> x.joined(0, 0), 1);
-        int[] aslant = Edges.xys(10, 10, 0, 10, 12, 11, 30, 20);
-        E.answers("aslant, the nearer", Edges.net(aslant, Edges.road(0, 1, 0, 0), Edges.road(0, 2, 0, 0),
-            Edges.road(0, 3, 0, 0)), x -> x.joined(0, 0), 1);
-        E.answers("aslant, the farther", Edges.net(aslant, Edges.road(0, 1, 0, 0), Edges.road(0, 3, 0, 0),
-            Edges.road(0, 2, 0, 0)), x -> x.joined(0, 0), 1);
+        int[] at = xys(10, 10, 0, 10, 12, 10, 30, 10);
+        E.answers("the nearer is the lesser", net(at, road(0, 1, 0, 0), road(0, 2, 0, 0),
+            road(0, 3, 0, 0)), x -> x.joined(0, 0), 1);
+        E.answers("the farther is the lesser", net(at, road(0, 1, 0, 0), road(0, 3, 0, 0),
+            road(0, 2, 0, 0)), x -> x.joined(0, 0), 1);
+        int[] aslant = xys(10, 10, 0, 10, 12, 11, 30, 20);
+        E.answers("aslant, the nearer", net(aslant, road(0, 1, 0, 0), road(0, 2, 0, 0),
+            road(0, 3, 0, 0)), x -> x.joined(0, 0), 1);
+        E.answers("aslant, the farther", net(aslant, road(0, 1, 0, 0), road(0, 3, 0, 0),
+            road(0, 2, 0, 0)), x -> x.joined(0, 0), 1);
     }
 
     // 'then of those without both of its ROADS, and so on'
     private static void thenOfThoseWithoutBoth() {
-        int[] at = Edges.xys(15, 15, 0, 15, 30, 15, 0, 0, 30, 29, 15, 30, 14, 0);
-        Edges.Told star = Edges.net(at, Edges.road(0, 6, 0, 0), Edges.road(0, 4, 0, 0), Edges.road(0, 2, 0, 0),
-            Edges.road(0, 1, 0, 0), Edges.road(0, 3, 0, 0), Edges.road(0, 5, 0, 0));
+        int[] at = xys(15, 15, 0, 15, 30, 15, 0, 0, 30, 29, 15, 30, 14, 0);
+        Told star = net(at, road(0, 6, 0, 0), road(0, 4, 0, 0), road(0, 2, 0, 0),
+            road(0, 1, 0, 0), road(0, 3, 0, 0), road(0, 5, 0, 0));
         int[] want = {5, 4, 3, 2, 1, 0};
         for (int r = 0; r < 6; r++) {
             int road = r;
@@ -164,7 +164,7 @@ public final class EdgesOfStrokesTest {
         }
         E.answers("three pairs", star, x -> x.count(7), 3);
         E.answers("three strokes", star, x -> x.count(2), 3);
-        Edges.Told odd = Edges.with(star, RoadStrokes::undo);
+        Told odd = with(star, RoadStrokes::undo);
         E.answers("of five one is left", odd, x -> x.joined(0, 0), NONE);
         E.answers("two pairs", odd, x -> x.count(7), 2);
     }
@@ -173,7 +173,7 @@ public final class EdgesOfStrokesTest {
     private static void aHighwayAndALaneAreNeverJoined() {
         for (int a = 0; a <= 2; a++) {
             for (int b = 0; b <= 2; b++) {
-                Edges.Told line = Edges.net(Edges.xys(5, 5, 10, 5, 15, 5), Edges.road(0, 1, a, 0), Edges.road(1, 2, b, 0));
+                Told line = net(xys(5, 5, 10, 5, 15, 5), road(0, 1, a, 0), road(1, 2, b, 0));
                 boolean never = a + b == 2 && a != b;
                 E.answers("kinds " + a + ", " + b, line, x -> x.joined(1, 0), never ? NONE : 1);
                 E.answers("kinds " + a + ", " + b, line, x -> x.joined(1, 1), never ? NONE : 0);
@@ -185,13 +185,13 @@ public final class EdgesOfStrokesTest {
 
     // the same: such a pair, though the straightest, keeps no other one from being JOINED
     private static void aHighwayAndALaneArePassedOver() {
-        int[] at = Edges.xys(10, 10, 0, 10, 20, 10, 20, 14, 0, 14);
-        Edges.Told cross = Edges.net(at, Edges.road(0, 1, 2, 0), Edges.road(0, 2, 0, 0), Edges.road(0, 3, 2, 0),
-            Edges.road(0, 4, 0, 0));
+        int[] at = xys(10, 10, 0, 10, 20, 10, 20, 14, 0, 14);
+        Told cross = net(at, road(0, 1, 2, 0), road(0, 2, 0, 0), road(0, 3, 2, 0),
+            road(0, 4, 0, 0));
         E.answers("the highways", cross, x -> x.joined(0, 0), 2);
         E.answers("the lanes", cross, x -> x.joined(0, 1), 3);
         E.answers("two pairs", cross, x -> x.count(7), 2);
-        Edges.Told all = Edges.with(cross, x -> {
+        Told all = with(cross, x -> {
             x.alter(0, 0, 0);
             x.alter(2, 0, 0);
         });
@@ -200,7 +200,7 @@ public final class EdgesOfStrokesTest {
 
     // 'A STROKE is a ROAD'
     private static void strokeOfOneRoad() {
-        Edges.Told one = Edges.net(Edges.xys(0, 0, 0, 1), Edges.road(1, 0, 0, 0));
+        Told one = net(xys(0, 0, 0, 1), road(1, 0, 0, 0));
         int[] want = {1, 1, 1, 0, 0, 0, 1};
         for (int what = 0; what <= 6; what++) {
             int w = what;
@@ -210,7 +210,7 @@ public final class EdgesOfStrokesTest {
 
     // 'and all that are JOINED to it, at a MEETING, to these, and so on'
     private static void strokeOfAllThatAreJoined() {
-        Edges.Told line = x -> {
+        Told line = x -> {
             for (int m = 0; m < 16; m++) {
                 x.meeting(15, 2 * m);
             }
@@ -225,17 +225,47 @@ public final class EdgesOfStrokesTest {
         E.answers("as bits", line, x -> x.stroke(0, 6), 0x7fff);
         E.answers("fourteen pairs", line, x -> x.count(7), 14);
         E.answers("not closed", line, x -> x.stroke(0, 3), 0);
-        Edges.Told parted = Edges.with(line, RoadStrokes::undo);
+        Told parted = with(line, RoadStrokes::undo);
         E.answers("two strokes without the last", parted, x -> x.count(2), 2);
         E.answers("the lesser one", parted, x -> x.stroke(0, 6), 0x3f7f);
         E.answers("the other one", parted, x -> x.stroke(1, 6), 1 << 7);
     }
 
+    // the same, of as many ROADS as may be
+    private static void strokesOfTheLastRoads() {
+        for (int s = 0; s < 8; s++) {
+            int stroke = s;
+            E.answers("roads of stroke " + s, Edges::grid, x -> x.stroke(stroke, 6), 7 << 3 * s);
+            E.answers("length of stroke " + s, Edges::grid, x -> x.stroke(stroke, 1), 30);
+            E.answers("stroke of its last road", Edges::grid, x -> x.info(3 * stroke + 2, 6), s);
+        }
+        E.answers("eight strokes", Edges::grid, x -> x.count(2), 8);
+        E.answers("sixteen pairs", Edges::grid, x -> x.count(7), 16);
+        E.answers("the last road's", Edges::grid, x -> x.joined(11, 23), 22);
+        E.answers("at its end", Edges::grid, x -> x.joined(15, 23), NONE);
+    }
+
+    // the same, when ROADS are undone or altered: what was JOINED is no part of it
+    private static void strokesOfWhatIsLeft() {
+        int[] at = xys(0, 0, 10, 0, 20, 0, 20, 10);
+        Told undone = with(net(at, road(0, 1, 0, 0), road(1, 2, 0, 0)), x -> {
+            x.undo();
+            x.road(2, 3, 0, 0);
+        });
+        E.answers("it touches no more", undone, x -> x.count(3), 2);
+        E.answers("its length", undone, x -> x.stroke(0, 1), 10);
+        Told altered = with(net(at, road(0, 1, 0, 0), road(1, 2, 1, 0), road(2, 3, 0, 0)),
+            x -> x.alter(1, 0, 2));
+        E.answers("it has one road", altered, x -> x.stroke(0, 6), 1);
+        E.answers("ranks by what touches", altered, x -> x.rank(1, 0), 0);
+        E.asked("cut by what touches", altered, x -> x.cut(3, 11, 1), 2);
+    }
+
     // 'STROKES are numbered by their least ROADS, 0 on'
     private static void numberedByTheirLeastRoads() {
-        Edges.Told cross = Edges.net(Edges.xys(10, 10, 0, 10, 20, 10, 10, 0, 10, 20, 20, 20),
-            Edges.road(4, 5, 0, 0), Edges.road(0, 1, 0, 0), Edges.road(0, 3, 0, 0), Edges.road(0, 4, 0, 0),
-            Edges.road(0, 2, 0, 0));
+        Told cross = net(xys(10, 10, 0, 10, 20, 10, 10, 0, 10, 20, 20, 20),
+            road(4, 5, 0, 0), road(0, 1, 0, 0), road(0, 3, 0, 0), road(0, 4, 0, 0),
+            road(0, 2, 0, 0));
         int[] want = {0, 1, 2, 2, 1};
         for (int r = 0; r < 5; r++) {
             int road = r;
@@ -246,8 +276,8 @@ public final class EdgesOfStrokesTest {
         E.answers("roads of stroke 2", cross, x -> x.stroke(2, 6), 12);
     }
 
-    private static Edges.Told ring(int kind, int use) {
-        return Edges.net(Edges.ringPlaces(), Edges.ringRoads(kind, use));
+    private static Told ring(int kind, int use) {
+        return net(ringPlaces(), ringRoads(kind, use));
     }
 
     // 'It is CLOSED, if each of its ROADS is JOINED at both of its ends'
@@ -255,7 +285,7 @@ public final class EdgesOfStrokesTest {
         E.answers("a ring at just 135 degrees", ring(0, 0), x -> x.stroke(0, 3), 1);
         E.answers("one closed", ring(0, 0), x -> x.count(5), 1);
         E.answers("eight pairs", ring(0, 0), x -> x.count(7), 8);
-        Edges.Told touched = Edges.with(ring(0, 0), x -> {
+        Told touched = with(ring(0, 0), x -> {
             x.meeting(10, 10);
             x.road(8, 0, 0, 0);
         });
@@ -265,34 +295,34 @@ public final class EdgesOfStrokesTest {
 
     // the same: without one ROAD two of them are not JOINED at both ends
     private static void notClosedOneRoadShort() {
-        E.answers("not closed", Edges.with(ring(0, 0), RoadStrokes::undo), x -> x.stroke(0, 3), 0);
-        E.answers("none closed", Edges.with(ring(0, 0), RoadStrokes::undo), x -> x.count(5), 0);
+        E.answers("not closed", with(ring(0, 0), RoadStrokes::undo), x -> x.stroke(0, 3), 0);
+        E.answers("none closed", with(ring(0, 0), RoadStrokes::undo), x -> x.count(5), 0);
     }
 
     // the same, with 'a HIGHWAY and a LANE are never JOINED'
     private static void notClosedByALaneAndAHighway() {
-        Edges.Told apart = Edges.with(ring(1, 0), x -> {
+        Told apart = with(ring(1, 0), x -> {
             x.alter(0, 0, 0);
             x.alter(7, 0, 2);
         });
         E.answers("still one stroke", apart, x -> x.stroke(0, 0), 8);
         E.answers("not closed", apart, x -> x.stroke(0, 3), 0);
-        E.answers("closed again", Edges.with(apart, x -> x.alter(7, 0, 1)), x -> x.stroke(0, 3), 1);
+        E.answers("closed again", with(apart, x -> x.alter(7, 0, 1)), x -> x.stroke(0, 3), 1);
     }
 
     // the same, with 'the angle between them is 135 degrees at least'
     private static void notClosedAtLessThan135Degrees() {
-        int[] at = Edges.ringPlaces();
+        int[] at = ringPlaces();
         at[1] = 1;
         // from (10, 1) to (20, 0) and to (0, 10): p is -109, the products 101 and 181, twice p p is more
-        E.answers("one corner is wider, the next is not", Edges.net(at, Edges.ringRoads(0, 0)), x -> x.joined(0, 0), 7);
-        E.answers("the next one", Edges.net(at, Edges.ringRoads(0, 0)), x -> x.joined(1, 0), NONE);
-        E.answers("not closed", Edges.net(at, Edges.ringRoads(0, 0)), x -> x.stroke(0, 3), 0);
+        E.answers("one corner is wider, the next is not", net(at, ringRoads(0, 0)), x -> x.joined(0, 0), 7);
+        E.answers("the next one", net(at, ringRoads(0, 0)), x -> x.joined(1, 0), NONE);
+        E.answers("not closed", net(at, ringRoads(0, 0)), x -> x.stroke(0, 3), 0);
     }
 
     // the same: a STROKE may come back to a MEETING of its own and end there
     private static void notClosedWhereItEndsOnItself() {
-        Edges.Told drop = Edges.with(ring(0, 0), x -> {
+        Told drop = with(ring(0, 0), x -> {
             x.meeting(0, 0);
             x.road(8, 0, 0, 0);
         });
@@ -304,8 +334,8 @@ public final class EdgesOfStrokesTest {
 
     // count() 5 of more than one
     private static void twoClosedStrokes() {
-        Edges.Told two = x -> {
-            int[] at = Edges.xys(1, 0, 2, 0, 3, 1, 3, 2, 2, 3, 1, 3, 0, 2, 0, 1);
+        Told two = x -> {
+            int[] at = xys(1, 0, 2, 0, 3, 1, 3, 2, 2, 3, 1, 3, 0, 2, 0, 1);
             for (int m = 0; m < 16; m++) {
                 x.meeting(at[2 * (m % 8)] + 20 * (m / 8), at[2 * (m % 8) + 1]);
             }
@@ -322,8 +352,8 @@ public final class EdgesOfStrokesTest {
 
     // 'LENGTH and WORTH of a STROKE are those of its ROADS together'
     private static void lengthAndWorthTogether() {
-        Edges.Told line = Edges.net(Edges.xys(0, 0, 4, 0, 7, 0, 30, 0), Edges.road(0, 1, 0, 9), Edges.road(2, 1, 1, 9),
-            Edges.road(2, 3, 2, 9));
+        Told line = net(xys(0, 0, 4, 0, 7, 0, 30, 0), road(0, 1, 0, 9), road(2, 1, 1, 9),
+            road(2, 3, 2, 9));
         E.answers("one stroke", line, x -> x.count(2), 1);
         E.answers("length", line, x -> x.stroke(0, 1), 30);
         E.answers("worth", line, x -> x.stroke(0, 2), 40 + 60 + 483);
@@ -331,24 +361,24 @@ public final class EdgesOfStrokesTest {
 
     // 'It TOUCHES another one, if any of its MEETINGS is one of that'
     private static void touchesAtAnyMeeting() {
-        int[] cross = Edges.xys(10, 10, 0, 10, 20, 10, 10, 0, 10, 20);
-        E.answers("both between their ends", Edges.net(cross, Edges.road(1, 0, 0, 0), Edges.road(0, 2, 0, 0),
-            Edges.road(3, 0, 0, 0), Edges.road(0, 4, 0, 0)), x -> x.count(3), 1);
-        E.answers("an end and one between", Edges.net(cross, Edges.road(1, 0, 0, 0), Edges.road(0, 2, 0, 0),
-            Edges.road(3, 0, 0, 0)), x -> x.count(3), 1);
-        E.answers("two ends", Edges.net(cross, Edges.road(1, 0, 0, 0), Edges.road(3, 0, 0, 0)), x -> x.count(3), 1);
+        int[] cross = xys(10, 10, 0, 10, 20, 10, 10, 0, 10, 20);
+        E.answers("both between their ends", net(cross, road(1, 0, 0, 0), road(0, 2, 0, 0),
+            road(3, 0, 0, 0), road(0, 4, 0, 0)), x -> x.count(3), 1);
+        E.answers("an end and one between", net(cross, road(1, 0, 0, 0), road(0, 2, 0, 0),
+            road(3, 0, 0, 0)), x -> x.count(3), 1);
+        E.answers("two ends", net(cross, road(1, 0, 0, 0), road(3, 0, 0, 0)), x -> x.count(3), 1);
     }
 
     // the same: ROADS that cross where there is no MEETING do not
     private static void touchesNotWithoutAMeeting() {
-        Edges.Told crossing = Edges.net(Edges.xys(0, 10, 20, 10, 10, 0, 10, 20), Edges.road(0, 1, 0, 0), Edges.road(2, 3, 0, 0));
+        Told crossing = net(xys(0, 10, 20, 10, 10, 0, 10, 20), road(0, 1, 0, 0), road(2, 3, 0, 0));
         E.answers("two nets", crossing, x -> x.count(3), 2);
-        E.answers("a meeting there is not theirs", Edges.with(crossing, x -> x.meeting(10, 10)), x -> x.count(3), 2);
-        Edges.Told through = Edges.net(Edges.xys(0, 10, 20, 10, 10, 10, 10, 20), Edges.road(0, 1, 0, 0), Edges.road(2, 3, 0, 0));
+        E.answers("a meeting there is not theirs", with(crossing, x -> x.meeting(10, 10)), x -> x.count(3), 2);
+        Told through = net(xys(0, 10, 20, 10, 10, 10, 10, 20), road(0, 1, 0, 0), road(2, 3, 0, 0));
         E.answers("a road through a meeting is not there", through, x -> x.count(3), 2);
     }
 
-    private static void ranksAre(String what, Edges.Told told, int... strokes) {
+    private static void ranksAre(String what, Told told, int... strokes) {
         for (int i = 0; i < strokes.length; i++) {
             int at = i;
             E.answers(what + ": rank(" + i + ", 0)", told, x -> x.rank(at, 0), strokes[i]);
@@ -359,38 +389,38 @@ public final class EdgesOfStrokesTest {
 
     // 'the first is the STROKE with the greatest WORTH, of like ones the least'
     private static void firstRankOfLikeOnesTheLeast() {
-        int[] at = Edges.xys(0, 0, 10, 0, 0, 20, 10, 20, 20, 10, 30, 10);
-        ranksAre("all like", Edges.net(at, Edges.road(0, 1, 0, 1), Edges.road(2, 3, 0, 1), Edges.road(4, 5, 1, 0)), 0, 1, 2);
-        ranksAre("one is worth less", Edges.net(at, Edges.road(0, 1, 0, 0), Edges.road(2, 3, 0, 1), Edges.road(4, 5, 1, 0)),
+        int[] at = xys(0, 0, 10, 0, 0, 20, 10, 20, 20, 10, 30, 10);
+        ranksAre("all like", net(at, road(0, 1, 0, 1), road(2, 3, 0, 1), road(4, 5, 1, 0)), 0, 1, 2);
+        ranksAre("one is worth less", net(at, road(0, 1, 0, 0), road(2, 3, 0, 1), road(4, 5, 1, 0)),
             1, 2, 0);
-        ranksAre("one is worth more", Edges.net(at, Edges.road(0, 1, 0, 1), Edges.road(2, 3, 0, 1), Edges.road(4, 5, 1, 1)),
+        ranksAre("one is worth more", net(at, road(0, 1, 0, 1), road(2, 3, 0, 1), road(4, 5, 1, 1)),
             2, 0, 1);
     }
 
     // 'then ever the one with the greatest WORTH ... of those that TOUCH any that has a RANK already'
     private static void nextRankOfThoseThatTouchAny() {
         // a path of four roads, each a stroke, worth 200, 10, 20, 100; apart from it two that are worth 140 and 100
-        int[] at = Edges.xys(0, 0, 10, 0, 10, 10, 20, 10, 20, 20, 0, 20, 5, 20, 5, 30);
-        Edges.Told path = Edges.net(at, Edges.road(0, 1, 1, 9), Edges.road(1, 2, 0, 0), Edges.road(2, 3, 0, 1),
-            Edges.road(3, 4, 0, 9), Edges.road(6, 7, 1, 6), Edges.road(5, 6, 1, 9));
+        int[] at = xys(0, 0, 10, 0, 10, 10, 20, 10, 20, 20, 0, 20, 5, 20, 5, 30);
+        Told path = net(at, road(0, 1, 1, 9), road(1, 2, 0, 0), road(2, 3, 0, 1),
+            road(3, 4, 0, 9), road(6, 7, 1, 6), road(5, 6, 1, 9));
         ranksAre("as each comes to touch", path, 0, 1, 2, 3, 4, 5);
         E.answers("worth of each sheet", path, x -> x.rank(2, 1), 230);
-        ranksAre("not the last rank's alone", Edges.net(Edges.xys(10, 0, 10, 10, 20, 10, 0, 0, 20, 20),
-            Edges.road(0, 1, 1, 9), Edges.road(1, 2, 1, 4), Edges.road(0, 3, 0, 8), Edges.road(2, 4, 0, 1)), 0, 1, 2, 3);
+        ranksAre("not the last rank's alone", net(xys(10, 0, 10, 10, 20, 10, 0, 0, 20, 20),
+            road(0, 1, 1, 9), road(1, 2, 1, 4), road(0, 3, 0, 8), road(2, 4, 0, 1)), 0, 1, 2, 3);
     }
 
     // 'of like ones the least, of those that TOUCH any'
     private static void nextRankOfLikeOnesTheLeast() {
-        int[] at = Edges.xys(10, 10, 20, 10, 10, 20, 20, 20, 0, 0, 0, 10);
-        ranksAre("both touch", Edges.net(at, Edges.road(4, 5, 0, 2), Edges.road(1, 3, 0, 2), Edges.road(0, 2, 0, 2),
-            Edges.road(0, 1, 2, 2)), 3, 1, 2, 0);
+        int[] at = xys(10, 10, 20, 10, 10, 20, 20, 20, 0, 0, 0, 10);
+        ranksAre("both touch", net(at, road(4, 5, 0, 2), road(1, 3, 0, 2), road(0, 2, 0, 2),
+            road(0, 1, 2, 2)), 3, 1, 2, 0);
     }
 
     // 'if none does, of all others (that begins another NET)'
     private static void anotherNetIfNoneTouches() {
-        int[] at = Edges.xys(0, 0, 10, 0, 10, 10, 20, 20, 30, 20, 30, 30, 0, 30, 5, 30);
-        Edges.Told three = Edges.net(at, Edges.road(6, 7, 0, 0), Edges.road(0, 1, 0, 0), Edges.road(1, 2, 0, 9),
-            Edges.road(3, 4, 0, 3), Edges.road(4, 5, 0, 4));
+        int[] at = xys(0, 0, 10, 0, 10, 10, 20, 20, 30, 20, 30, 30, 0, 30, 5, 30);
+        Told three = net(at, road(6, 7, 0, 0), road(0, 1, 0, 0), road(1, 2, 0, 9),
+            road(3, 4, 0, 3), road(4, 5, 0, 4));
         ranksAre("three nets", three, 2, 1, 4, 3, 0);
         int[] nets = {2, 0, 0, 1, 1};
         for (int s = 0; s < 5; s++) {
@@ -398,22 +428,22 @@ public final class EdgesOfStrokesTest {
             E.answers("net of " + s, three, x -> x.stroke(stroke, 5), nets[s]);
         }
         E.answers("three nets", three, x -> x.count(3), 3);
-        E.answers("the first net alone", Edges.net(at, Edges.road(0, 1, 0, 0)), x -> x.count(3), 1);
-        E.answers("no net", Edges.net(at), x -> x.count(3), 0);
+        E.answers("the first net alone", net(at, road(0, 1, 0, 0)), x -> x.count(3), 1);
+        E.answers("no net", net(at), x -> x.count(3), 0);
     }
 
     // the same: 'of like ones the least'
     private static void anotherNetOfLikeOnesTheLeast() {
-        int[] at = Edges.xys(0, 0, 10, 0, 0, 10, 10, 10, 0, 20, 10, 20, 0, 30, 10, 30);
-        Edges.Told four = Edges.net(at, Edges.road(0, 1, 0, 0), Edges.road(2, 3, 0, 0), Edges.road(4, 5, 0, 9),
-            Edges.road(6, 7, 0, 0));
+        int[] at = xys(0, 0, 10, 0, 0, 10, 10, 10, 0, 20, 10, 20, 0, 30, 10, 30);
+        Told four = net(at, road(0, 1, 0, 0), road(2, 3, 0, 0), road(4, 5, 0, 9),
+            road(6, 7, 0, 0));
         ranksAre("the rest by numbers", four, 2, 0, 1, 3);
         E.answers("net of 3", four, x -> x.stroke(3, 5), 3);
         E.answers("nets", four, x -> x.count(3), 4);
     }
 
-    private static Edges.Told line() {
-        return Edges.net(Edges.xys(0, 0, 5, 0, 10, 0, 20, 20), Edges.road(0, 1, 0, 0), Edges.road(1, 2, 0, 0));
+    private static Told line() {
+        return net(xys(0, 0, 5, 0, 10, 0, 20, 20), road(0, 1, 0, 0), road(1, 2, 0, 0));
     }
 
     // Promise 9: 'The ROAD to which a ROAD is JOINED at a MEETING; NONE. BAD; NOT: the ROAD is not there'
@@ -431,7 +461,7 @@ public final class EdgesOfStrokesTest {
             E.refused("BAD: road " + v, line(), x -> x.joined(1, v), BAD);
             E.refused("BAD ahead of NOT: road " + v, line(), x -> x.joined(3, v), BAD);
         }
-        E.refused("BAD: no road at all", Edges.net(Edges.xys(1, 1)), x -> x.joined(0, 0), BAD);
+        E.refused("BAD: no road at all", net(xys(1, 1)), x -> x.joined(0, 0), BAD);
     }
 
     // Promise 10: 'BAD; NOT: they are not both there, they are one'
@@ -451,7 +481,7 @@ public final class EdgesOfStrokesTest {
             E.refused("BAD ahead of NOT: both " + v, line(), x -> x.along(1, v, v), BAD);
             E.refused("BAD ahead of NOT: not there", line(), x -> x.along(3, 0, v), BAD);
         }
-        E.refused("BAD: no road at all", Edges.net(Edges.xys(1, 1)), x -> x.along(0, 0, 0), BAD);
+        E.refused("BAD: no road at all", net(xys(1, 1)), x -> x.along(0, 0, 0), BAD);
     }
 
     // Promise 11: 'How many ROADS (what = 0) ... ROADS as bits (6). BAD'
@@ -468,7 +498,7 @@ public final class EdgesOfStrokesTest {
             int w = what;
             E.answers("stroke(0, " + what + ")", line(), x -> x.stroke(0, w), want[what]);
         }
-        E.refused("BAD: meetings alone", Edges.net(Edges.xys(1, 1, 2, 2)), x -> x.stroke(0, 0), BAD);
+        E.refused("BAD: meetings alone", net(xys(1, 1, 2, 2)), x -> x.stroke(0, 0), BAD);
     }
 
     // Promise 11, of as many STROKES as there may be
@@ -510,8 +540,8 @@ public final class EdgesOfStrokesTest {
             E.answers("rank 23 of one stroke", line(), x -> x.rank(23, w), NONE);
             E.answers("no strokes", Edges::nothing, x -> x.rank(0, w), NONE);
             E.answers("rank 23 of no strokes", Edges::nothing, x -> x.rank(23, w), NONE);
-            E.answers("rank 22 of 23", Edges.with(Edges::fullNet, RoadStrokes::undo), x -> x.rank(22, w) >= 0 ? 1 : 0, 1);
-            E.answers("rank 23 of 23", Edges.with(Edges::fullNet, RoadStrokes::undo), x -> x.rank(23, w), NONE);
+            E.answers("rank 22 of 23", with(Edges::fullNet, RoadStrokes::undo), x -> x.rank(22, w) >= 0 ? 1 : 0, 1);
+            E.answers("rank 23 of 23", with(Edges::fullNet, RoadStrokes::undo), x -> x.rank(23, w), NONE);
         }
     }
 }
